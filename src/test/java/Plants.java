@@ -1,0 +1,74 @@
+/** Hands plant texts to an object, and writes down what an object shows of itself. */
+final class Plants {
+    private Plants() {
+    }
+
+    /** A new object with the plant of a text that is right. */
+    static RailPendulum plant(String text) {
+        RailPendulum x = new RailPendulum();
+        int code = parse(x, text);
+        if (code != 0) {
+            throw new AssertionError("the test's own text is wrong: " + text);
+        }
+        return x;
+    }
+
+    static int parse(RailPendulum x, String text) {
+        append(x, text);
+        return x.parse(text.length());
+    }
+
+    /** Appends the text, filled up with spaces to a multiple of 20. */
+    static void append(RailPendulum x, String text) {
+        for (int from = 0; from < text.length(); from += 20) {
+            x.append(four(text, from), four(text, from + 4), four(text, from + 8),
+                    four(text, from + 12), four(text, from + 16));
+        }
+    }
+
+    private static int four(String text, int from) {
+        int bytes = 0;
+        for (int k = from; k < from + 4; k++) {
+            bytes = bytes << 8 | (k < text.length() ? text.charAt(k) & 255 : ' ');
+        }
+        return bytes;
+    }
+
+    /** All that the object answers without changing. */
+    static String shown(RailPendulum x) {
+        StringBuilder all = new StringBuilder();
+        for (int what = 0; what <= 8; what++) {
+            all.append(x.state(what)).append(' ');
+        }
+        for (int link = 1; link <= 2; link++) {
+            all.append("| ").append(x.link(link, 0)).append(' ').append(x.link(link, 1)).append(' ');
+            all.append(x.energy(link)).append(' ').append(x.target(link)).append(' ');
+            all.append(x.cellOf(link, 0)).append(' ').append(x.cellOf(link, 1)).append(' ');
+        }
+        all.append("| ").append(x.push()).append(' ').append(x.stopReason()).append(' ').append(x.isCapturable());
+        for (int ticks = 1; ticks <= 200; ticks += 13) {
+            all.append(' ').append(x.switchesIn(ticks));
+        }
+        all.append(" |");
+        for (int i = -3; i <= 3; i++) {
+            for (int j = -3; j <= 3; j++) {
+                all.append(' ').append(cell(x, i, j));
+            }
+        }
+        all.append(" | ").append(x.regionSize());
+        for (int reason = 0; reason <= 4; reason++) {
+            all.append(' ').append(x.cellsWith(reason));
+        }
+        all.append(" | ").append(x.ticksToBalance(100)).append(' ').append(x.ticksToStop(100));
+        all.append(' ').append(x.farthest(100)).append(' ').append(x.linkAfter(1, 0, 100));
+        return all.toString();
+    }
+
+    private static String cell(RailPendulum x, int i, int j) {
+        try {
+            return x.reason(i, j) + "@" + x.failedStep(i, j);
+        } catch (IndexOutOfBoundsException e) {
+            return "-";
+        }
+    }
+}
