@@ -774,7 +774,7 @@ public final class RailPendulum {
         private int size;
 
         History() {
-            for (int k = 0; k < DEPTH; k++) {
+            for (int k = 0; k < rows.length; k++) {
                 rows[k] = new Situation();
             }
         }

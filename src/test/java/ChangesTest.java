@@ -3,6 +3,7 @@ public final class ChangesTest {
     public static void main(String[] args) {
         oneStep();
         stepsCutEachQuotient();
+        quotientsOf4096();
         anglesWrap();
         coupling();
         railEnds();
@@ -79,6 +80,35 @@ public final class ChangesTest {
         z.nudge(2, -1);
         z.run(1);
         moved("just a part", z, new int[] {3, 21, 1025, 16, 1023, -16});
+    }
+
+    private static void quotientsOf4096() {
+        // 64 * 64 is a whole part, 63 * 65 is 1 too little for it.
+        RailPendulum x = Plants.plant("gravity 0 0; damping 64 63; couple 0;");
+        x.reset(0, 0);
+        x.nudge(1, 64);
+        x.nudge(2, 65);
+        x.run(1);
+        moved("damped", x, new int[] {0, 0, 3, 63, 4, 65});
+        // So is sine(1024), but not sine(1023).
+        RailPendulum y = Plants.plant("gravity 1 1; damping 0 0; couple 0;");
+        y.reset(1024, 1023);
+        y.run(1);
+        moved("pulled", y, new int[] {0, 0, 1024, 1, 1023, 0});
+        for (int apart = 1023; apart <= 1024; apart++) {
+            RailPendulum z = Plants.plant("gravity 0 0; damping 0 0; couple 1;");
+            z.reset(apart, 0);
+            z.run(1);
+            int s = apart == 1024 ? 1 : 0;
+            moved("coupled", z, new int[] {0, 0, apart, -s, 0, s});
+        }
+        // And a push of 1 by the cosine: 4096 upright, 4095 at 1.
+        RailPendulum q = Plants.plant("gravity 0 0; damping 0 0; couple 0; push 1 1 1; region 1 1 0 1; gains 64 0 0 0 0 0;");
+        q.reset(1, 0);
+        q.setMode(2);
+        Checks.due("push", q.push(), 1);
+        q.run(1);
+        moved("pushed", q, new int[] {0, 1, 1, 0, 0, -1});
     }
 
     private static void anglesWrap() {

@@ -6,17 +6,20 @@ public final class PlantTextTest {
     public static void main(String[] args) {
         newObject();
         usualNumbers();
+        usualEdges();
         appending();
         bytesOfArguments();
         parsingLength();
         whatIsAText();
         tokens();
+        words();
         places();
         secondStatements();
         ranges();
         firstErrorCounts();
         errorPositionLasts();
         successStartsAnew();
+        successForgetsSwitches();
         errorChangesNothing();
         Checks.finish();
     }
@@ -54,6 +57,57 @@ public final class PlantTextTest {
             x.run(40);
             y.run(40);
         }
+    }
+
+    /** What applies without a statement, seen from edges that a number more or less would shift. */
+    private static void usualEdges() {
+        RailPendulum x = Plants.plant("gravity 0 0; damping 0 0; push 0 0 60; couple 0; region 9 9 0 1;");
+        x.setMode(1);
+        x.run(1000);
+        Checks.due("rail", x.state(2), 4000);
+        for (int speed = 1500; speed <= 1501; speed++) {
+            x.reset(0, 0);
+            x.nudge(1, 500);
+            x.nudge(1, 500);
+            x.nudge(1, 499);
+            x.nudge(1, speed - 1499);
+            Checks.due("speed of limit", x.run(1), speed == 1500 ? 0 : 3);
+        }
+        for (int angle = 512; angle <= 513; angle++) {
+            x.reset(angle, angle);
+            x.setMode(2);
+            Checks.due("angle of limit", x.run(1), angle == 512 ? 2 : 1);
+        }
+        String free = "gravity 0 0; damping 0 0; push 0 0 60; couple 0; gains 0 0 0 0 0 0; limit ";
+        RailPendulum y = Plants.plant(free + "183 999;");
+        Checks.due("64 + 60 * 32 / 16 is above 183", y.reason(1, 1), 3);
+        Checks.due("in step 60", y.failedStep(1, 1), 60);
+        Checks.due("but not above 184, and there is no step 61", Plants.plant(free + "184 999;").reason(1, 1), 4);
+        // Captured at each odd tick and given up at each even one.
+        String flickering = free + "20 9999; region 100 100 0 1;";
+        RailPendulum z = Plants.plant(flickering);
+        z.reset(30, 30);
+        z.setMode(1);
+        z.run(4);
+        Checks.due("4 switches", z.state(4), 0);
+        z.saveSnapshot(0);
+        z.run(1);
+        Checks.due("more than 4 switches", z.state(4), 100);
+        z.restoreSnapshot(0);
+        z.setMode(0);
+        z.run(45);
+        z.reset(30, 30);
+        z.setMode(1);
+        z.run(1);
+        Checks.due("5 switches in 50 ticks", z.state(4), 100);
+        z.restoreSnapshot(0);
+        z.setMode(0);
+        z.run(46);
+        z.reset(30, 30);
+        z.setMode(1);
+        z.run(1);
+        Checks.due("5 switches in 51 ticks", z.state(4), 0);
+        Checks.due("5 switches in 51 ticks", z.state(6), 5);
     }
 
     private static void appending() {
@@ -101,6 +155,12 @@ public final class PlantTextTest {
         Checks.due("errorPosition", x.errorPosition(), 4);
         Checks.throwsArgument("the buffer is empty after an error", () -> x.parse(1));
         Checks.due("errorPosition after an exception", x.errorPosition(), 4);
+        Plants.append(x, "railway 1;");
+        Checks.due("a word is cut off by the length", x.parse(4), 1);
+        Checks.due("errorPosition", x.errorPosition(), 4);
+        Plants.append(x, "rail 12345;");
+        Checks.due("a number is cut off by the length", x.parse(9), 1);
+        Checks.due("errorPosition", x.errorPosition(), 9);
         Checks.due("parse(0)", x.parse(0), 0);
         Checks.due("errorPosition after a success", x.errorPosition(), -1);
         Checks.due("force of the empty text", x.state(5), 60);
@@ -146,6 +206,21 @@ public final class PlantTextTest {
         wrong("rail 5;\0", 1, 7);
         wrong("rail 5\u00b9;", 1, 6);
         wrong("gains 1 2 3 4 5 6;chatters 1 1 1;", 1, 18);
+    }
+
+    private static void words() {
+        String[] statements = {"rail 5;", "gravity 1 2;", "damping 1 2;", "push 1 2 3;", "couple 5;",
+            "gains 1 2 3 4 5 6;", "region 1 2 3 4;", "limit 1 2;", "chatter 1 2 3;"};
+        for (String one : statements) {
+            for (int k = 0; k < one.indexOf(' '); k++) {
+                char other = one.charAt(k) == 'x' ? 'y' : 'x';
+                wrong(one.substring(0, k) + other + one.substring(k + 1), 1, 0);
+                wrong(" " + one.substring(0, k) + one.substring(k + 1), 1, 1);
+                wrong("\n" + one.substring(0, k) + other + one.substring(k), 1, 1);
+            }
+            String letters = one.substring(0, one.indexOf(' '));
+            wrong(letters + "s" + one.substring(letters.length()), 1, 0);
+        }
     }
 
     private static void places() {
@@ -284,6 +359,27 @@ public final class PlantTextTest {
         Checks.due("a smaller region", Plants.parse(x, "region 70 20 1 40;"), 0);
         Checks.due("cells of it", x.cellsWith(0) + x.cellsWith(1) + x.cellsWith(2) + x.cellsWith(3) + x.cellsWith(4), 9);
         Checks.throwsIndex("no such cell", () -> x.reason(2, 0));
+    }
+
+    private static void successForgetsSwitches() {
+        String text = "rail 9999; gravity 0 0; damping 0 0; push 0 0 1; couple 0; gains 0 0 0 0 0 0;"
+                + "region 100 100 0 1; limit 20 9999; chatter 20 21 7;";
+        RailPendulum x = Plants.plant(text);
+        x.reset(30, 30);
+        x.setMode(1);
+        x.run(400);
+        for (int k = 0; k < 60 && x.state(4) == 0; k++) {
+            x.run(1);
+        }
+        Checks.due("switches in words of any age", x.switchesIn(200) > 100, true);
+        Checks.due("lock", x.state(4) > 0, true);
+        Checks.due("parse", Plants.parse(x, text), 0);
+        Checks.due("lock", x.state(4), 0);
+        for (int k = 0; k < 200; k++) {
+            Checks.due("no switches any more", x.switchesIn(200), 0);
+            x.run(1);
+        }
+        Checks.due("no switches any more", x.state(6), 0);
     }
 
     private static void errorChangesNothing() {

@@ -123,9 +123,12 @@ public final class RegionTest {
         Checks.due("setForce", x.setForce(500), 3);
         Checks.due("failedStep by a push of 309", x.failedStep(1, 0), 2);
         x.undo();
+        Checks.due("undone", x.reason(1, 0), 0);
         Checks.due("undone", x.failedStep(1, 0), -1);
         x.undo();
+        Checks.due("undone", x.reason(1, 0), 1);
         Checks.due("undone", x.failedStep(1, 0), 3);
+        Checks.due("undone", x.regionSize(), 3);
     }
 
     private static void cells() {

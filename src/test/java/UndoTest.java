@@ -7,6 +7,7 @@ public final class UndoTest {
         whatIsNoChange();
         snapshots();
         snapshotsHoldAll();
+        switchesComeBack();
         slotsApart();
         wrongSlots();
         Checks.finish();
@@ -159,6 +160,40 @@ public final class UndoTest {
         x.restoreSnapshot(0);
         Checks.due("stopped again", x.state(1), 3);
         Checks.due("by the rail's end", x.stopReason(), 1);
+    }
+
+    /** The switches of the latest 200 ticks come back, even after ticks that have pushed them out. */
+    private static void switchesComeBack() {
+        RailPendulum x = Plants.plant("rail 9999; gravity 0 0; damping 0 0; push 0 0 1; couple 0; gains 0 0 0 0 0 0;"
+                + "region 100 100 0 1; limit 20 9999; chatter 20 20 0;");
+        x.reset(30, 30);
+        x.setMode(1);
+        x.run(130);
+        x.setMode(0);
+        x.run(7);
+        x.setMode(1);
+        x.run(101);
+        int[] counts = new int[201];
+        for (int ticks = 1; ticks <= 200; ticks++) {
+            counts[ticks] = x.switchesIn(ticks);
+            Checks.due("switchesIn " + ticks, counts[ticks], ticks <= 101 ? ticks : Math.max(101, ticks - 7));
+        }
+        x.saveSnapshot(0);
+        x.setMode(0);
+        x.run(300);
+        Checks.due("all pushed out", x.switchesIn(200), 0);
+        x.undo();
+        x.undo();
+        for (int ticks = 1; ticks <= 200; ticks++) {
+            Checks.due("undone: switchesIn " + ticks, x.switchesIn(ticks), counts[ticks]);
+        }
+        x.setMode(0);
+        x.run(300);
+        x.restoreSnapshot(0);
+        for (int ticks = 1; ticks <= 200; ticks++) {
+            Checks.due("restored: switchesIn " + ticks, x.switchesIn(ticks), counts[ticks]);
+        }
+        Checks.due("restored: switches", x.state(6), 231);
     }
 
     private static void slotsApart() {
