@@ -21,7 +21,7 @@ public final class ChangesTest {
         Checks.finish();
     }
 
-    private static void moved(String what, RailPendulum x, int[] want) {
+    private static void moved(String what, CountedPendulum x, int[] want) {
         Checks.due(what + ": x", x.state(2), want[0]);
         Checks.due(what + ": v", x.state(3), want[1]);
         Checks.due(what + ": a1", x.link(1, 0), want[2]);
@@ -32,12 +32,12 @@ public final class ChangesTest {
 
     private static void oneStep() {
         // sine(1024) is 4096, so that gravity adds 40 and 60; they pull apart by 10 * sine(0) / 4096.
-        RailPendulum x = new RailPendulum();
+        CountedPendulum x = new CountedPendulum();
         x.reset(1024, 1024);
         x.run(1);
         moved("level", x, new int[] {0, 0, 1026, 40, 1027, 60});
         // Damping: 8 * 400 / 4096 is 0, 8 * 500 * 2 / 4096 is 1, and so for speeds below 0.
-        RailPendulum y = Plants.plant("gravity 0 0; couple 0; damping 8 400;");
+        CountedPendulum y = Plants.plant("gravity 0 0; couple 0; damping 8 400;");
         y.reset(0, 0);
         y.nudge(1, 500);
         y.nudge(2, -500);
@@ -47,7 +47,7 @@ public final class ChangesTest {
         y.run(1);
         moved("damped", y, new int[] {0, 0, 31 + 62, 999, 4068 - 25, -408});
         // A push of 60 with cosines of -4096 adds 60 and 120; the cart goes by 60 / 8.
-        RailPendulum z = Plants.plant("push 1 2 60; damping 0 0;");
+        CountedPendulum z = Plants.plant("push 1 2 60; damping 0 0;");
         z.setMode(1);
         z.run(1);
         moved("pushed", z, new int[] {7, 60, 2048 + 3, 60, 2048 + 7, 120});
@@ -55,19 +55,19 @@ public final class ChangesTest {
 
     private static void stepsCutEachQuotient() {
         // 1 * sine(100) = 632 is less than 4096, and so is its negative: both are cut to 0.
-        RailPendulum x = Plants.plant("gravity 1 1; damping 0 0; couple 1;");
+        CountedPendulum x = Plants.plant("gravity 1 1; damping 0 0; couple 1;");
         x.reset(100, 3996);
         x.run(1);
         moved("cut", x, new int[] {0, 0, 100, 0, 3996, 0});
         // g * sine and c * u * cosine are put together before they are cut: 3 * 2891 - 2 * 2891 is less than 4096.
-        RailPendulum y = Plants.plant("gravity 3 0; push 2 0 1; damping 0 0; couple 0; gains 0 0 0 0 0 0;");
+        CountedPendulum y = Plants.plant("gravity 3 0; push 2 0 1; damping 0 0; couple 0; gains 0 0 0 0 0 0;");
         y.reset(512, 0);
         y.setMode(1);
         Checks.due("push", y.push(), 1);
         y.run(1);
         moved("together", y, new int[] {0, 1, 512, 0, 0, 0});
         // -15 / 16 is 0, and so is 15 / 16; 7 / 8 is 0.
-        RailPendulum z = Plants.plant("gravity 0 0; damping 0 0; couple 0; push 0 0 7;");
+        CountedPendulum z = Plants.plant("gravity 0 0; damping 0 0; couple 0; push 0 0 7;");
         z.reset(1024, 1024);
         z.nudge(1, 15);
         z.nudge(2, -15);
@@ -84,26 +84,26 @@ public final class ChangesTest {
 
     private static void quotientsOf4096() {
         // 64 * 64 is a whole part, 63 * 65 is 1 too little for it.
-        RailPendulum x = Plants.plant("gravity 0 0; damping 64 63; couple 0;");
+        CountedPendulum x = Plants.plant("gravity 0 0; damping 64 63; couple 0;");
         x.reset(0, 0);
         x.nudge(1, 64);
         x.nudge(2, 65);
         x.run(1);
         moved("damped", x, new int[] {0, 0, 3, 63, 4, 65});
         // So is sine(1024), but not sine(1023).
-        RailPendulum y = Plants.plant("gravity 1 1; damping 0 0; couple 0;");
+        CountedPendulum y = Plants.plant("gravity 1 1; damping 0 0; couple 0;");
         y.reset(1024, 1023);
         y.run(1);
         moved("pulled", y, new int[] {0, 0, 1024, 1, 1023, 0});
         for (int apart = 1023; apart <= 1024; apart++) {
-            RailPendulum z = Plants.plant("gravity 0 0; damping 0 0; couple 1;");
+            CountedPendulum z = Plants.plant("gravity 0 0; damping 0 0; couple 1;");
             z.reset(apart, 0);
             z.run(1);
             int s = apart == 1024 ? 1 : 0;
             moved("coupled", z, new int[] {0, 0, apart, -s, 0, s});
         }
         // And a push of 1 by the cosine: 4096 upright, 4095 at 1.
-        RailPendulum q = Plants.plant("gravity 0 0; damping 0 0; couple 0; push 1 1 1; region 1 1 0 1; gains 64 0 0 0 0 0;");
+        CountedPendulum q = Plants.plant("gravity 0 0; damping 0 0; couple 0; push 1 1 1; region 1 1 0 1; gains 64 0 0 0 0 0;");
         q.reset(1, 0);
         q.setMode(2);
         Checks.due("push", q.push(), 1);
@@ -112,7 +112,7 @@ public final class ChangesTest {
     }
 
     private static void anglesWrap() {
-        RailPendulum x = Plants.plant("gravity 0 0; damping 0 0; couple 0;");
+        CountedPendulum x = Plants.plant("gravity 0 0; damping 0 0; couple 0;");
         x.reset(4095, 0);
         x.nudge(1, 16);
         x.nudge(2, -16);
@@ -122,7 +122,7 @@ public final class ChangesTest {
 
     private static void coupling() {
         // s is couple * sine(a1 - a2) / 4096: link 1 loses it, link 2 gains it.
-        RailPendulum x = Plants.plant("gravity 0 0; damping 0 0; couple 200;");
+        CountedPendulum x = Plants.plant("gravity 0 0; damping 0 0; couple 200;");
         x.reset(1024, 0);
         x.run(1);
         moved("ahead", x, new int[] {0, 0, 1024 - 12, -200, 12, 200});
@@ -137,7 +137,7 @@ public final class ChangesTest {
 
     private static void railEnds() {
         String text = "gravity 0 0; damping 0 0; couple 0; push 0 0 80; gains 99 0 99 0 0 0; region 1 1 0 1; rail ";
-        RailPendulum right = Plants.plant(text + "10;");
+        CountedPendulum right = Plants.plant(text + "10;");
         right.setMode(1);
         Checks.due("just at the end", right.run(1), 1);
         Checks.due("x", right.state(2), 10);
@@ -146,7 +146,7 @@ public final class ChangesTest {
         Checks.due("x", right.state(2), 10);
         Checks.due("v", right.state(3), 0);
         Checks.due("reason", right.stopReason(), 1);
-        RailPendulum left = Plants.plant(text + "10;");
+        CountedPendulum left = Plants.plant(text + "10;");
         left.reset(4000, 4000);
         left.setMode(2);
         Checks.due("push to the left", left.push(), -80);
@@ -159,12 +159,12 @@ public final class ChangesTest {
     }
 
     private static void modesInATick() {
-        RailPendulum x = new RailPendulum();
+        CountedPendulum x = new CountedPendulum();
         x.reset(60, 20);
         x.run(1);
         Checks.due("idle stays idle", x.state(1), 0);
         // The limit is looked at before the step, at both links.
-        RailPendulum y = Plants.plant("gravity 0 0; damping 0 0; push 0 0 1; couple 0; limit 100 9999;");
+        CountedPendulum y = Plants.plant("gravity 0 0; damping 0 0; push 0 0 1; couple 0; limit 100 9999;");
         for (int lean : new int[] {100, -100}) {
             y.reset(lean & 4095, 0);
             y.setMode(2);
@@ -189,7 +189,7 @@ public final class ChangesTest {
         Checks.due("the step comes later", y.run(1), 2);
         Checks.due("and is seen by the next tick", y.run(1), 1);
         // A capture uses the balancing push in its own tick, and a switch back the swing-up's.
-        RailPendulum z = Plants.plant("gravity 0 0; damping 0 0; push 0 0 60; couple 0; limit 100 9999;");
+        CountedPendulum z = Plants.plant("gravity 0 0; damping 0 0; push 0 0 60; couple 0; limit 100 9999;");
         z.reset(60, 20);
         z.setMode(1);
         z.run(1);
@@ -201,8 +201,8 @@ public final class ChangesTest {
     }
 
     /** Lean 30 is in the verified cell (0, 0) of this region and beyond its limit: it switches in every tick. */
-    private static RailPendulum flickering(String numbers) {
-        RailPendulum x = Plants.plant("gravity 0 0; damping 0 0; push 0 0 8; couple 0; gains 0 0 0 0 0 0; rail 9999;"
+    private static CountedPendulum flickering(String numbers) {
+        CountedPendulum x = Plants.plant("gravity 0 0; damping 0 0; push 0 0 8; couple 0; gains 0 0 0 0 0 0; rail 9999;"
                 + "region 100 100 0 1; limit 20 9999; chatter " + numbers + ";");
         x.reset(30, 30);
         x.setMode(1);
@@ -210,7 +210,7 @@ public final class ChangesTest {
     }
 
     private static void chatter() {
-        RailPendulum x = flickering("3 10 4");
+        CountedPendulum x = flickering("3 10 4");
         int[] modes = {2, 1, 2, 1, 1, 1, 1, 1, 1, 1, 1};
         int[] locks = {0, 0, 0, 4, 3, 2, 1, 4, 3, 2, 1};
         int[] switches = {1, 2, 3, 4, 4, 4, 4, 5, 5, 5, 5};
@@ -232,29 +232,29 @@ public final class ChangesTest {
     }
 
     private static void chatterWindow() {
-        RailPendulum one = flickering("1 1 9");
+        CountedPendulum one = flickering("1 1 9");
         one.run(50);
         Checks.due("one in a window of one", one.state(6), 50);
         Checks.due("one in a window of one", one.state(4), 0);
-        RailPendulum two = flickering("1 2 9");
+        CountedPendulum two = flickering("1 2 9");
         two.run(2);
         Checks.due("two in a window of two", two.state(6), 2);
         Checks.due("two in a window of two", two.state(4), 9);
-        RailPendulum many = flickering("20 200 999");
+        CountedPendulum many = flickering("20 200 999");
         many.run(20);
         Checks.due("twenty", many.state(4), 0);
         many.run(1);
         Checks.due("one above twenty", many.state(4), 999);
         Checks.due("one above twenty", many.state(1), 1);
         // A switch on the edge of a window of 200.
-        RailPendulum far = flickering("1 200 5");
+        CountedPendulum far = flickering("1 200 5");
         far.run(1);
         far.setMode(0);
         far.run(198);
         far.setMode(1);
         far.run(1);
         Checks.due("tick 1 and tick 200", far.state(4), 5);
-        RailPendulum farther = flickering("1 200 5");
+        CountedPendulum farther = flickering("1 200 5");
         farther.run(1);
         farther.setMode(0);
         farther.run(199);
@@ -262,7 +262,7 @@ public final class ChangesTest {
         farther.run(1);
         Checks.due("tick 1 and tick 201", farther.state(4), 0);
         Checks.due("tick 1 and tick 201", farther.state(1), 2);
-        RailPendulum none = flickering("1 5 0");
+        CountedPendulum none = flickering("1 5 0");
         none.run(2);
         Checks.due("hold 0", none.state(4), 0);
         Checks.due("hold 0", none.state(1), 1);
@@ -272,7 +272,7 @@ public final class ChangesTest {
     }
 
     private static void lock() {
-        RailPendulum x = flickering("1 5 3");
+        CountedPendulum x = flickering("1 5 3");
         x.run(2);
         Checks.due("lock", x.state(4), 3);
         x.setMode(0);
@@ -289,7 +289,7 @@ public final class ChangesTest {
     }
 
     private static void stoppedTicks() {
-        RailPendulum x = Plants.plant("gravity 0 0; damping 0 0; push 0 0 8; couple 0; gains 0 0 0 0 0 0; rail 9999;"
+        CountedPendulum x = Plants.plant("gravity 0 0; damping 0 0; push 0 0 8; couple 0; gains 0 0 0 0 0 0; rail 9999;"
                 + "region 100 100 0 1; limit 20 700; chatter 1 9 50;");
         x.reset(30, 30);
         x.setMode(1);
@@ -308,7 +308,7 @@ public final class ChangesTest {
     }
 
     private static void runLimits() {
-        RailPendulum x = new RailPendulum();
+        CountedPendulum x = new CountedPendulum();
         for (int wrong : new int[] {0, -1, 1001, Integer.MIN_VALUE, Integer.MAX_VALUE}) {
             Checks.throwsArgument("run " + wrong, () -> x.run(wrong));
         }
@@ -331,7 +331,7 @@ public final class ChangesTest {
     }
 
     private static void setModes() {
-        RailPendulum x = new RailPendulum();
+        CountedPendulum x = new CountedPendulum();
         Checks.due("0 to 1", x.setMode(1), 0);
         Checks.due("1 to 2", x.setMode(2), 1);
         Checks.due("2 to 2", x.setMode(2), 2);
@@ -342,7 +342,7 @@ public final class ChangesTest {
         for (int wrong : new int[] {-1, 3, Integer.MIN_VALUE, Integer.MAX_VALUE}) {
             Checks.throwsArgument("setMode " + wrong, () -> x.setMode(wrong));
         }
-        RailPendulum y = stopped();
+        CountedPendulum y = stopped();
         for (int mode = 0; mode <= 2; mode++) {
             int to = mode;
             Checks.throwsState("stopped", () -> y.setMode(to));
@@ -353,15 +353,15 @@ public final class ChangesTest {
         Checks.due("after a reset", y.setMode(1), 0);
     }
 
-    private static RailPendulum stopped() {
-        RailPendulum x = Plants.plant("limit 512 9;");
+    private static CountedPendulum stopped() {
+        CountedPendulum x = Plants.plant("limit 512 9;");
         x.nudge(1, 100);
         Checks.due("stopped", x.run(1), 3);
         return x;
     }
 
     private static void resets() {
-        RailPendulum x = flickering("1 5 30");
+        CountedPendulum x = flickering("1 5 30");
         x.run(5);
         x.nudge(1, 7);
         x.nudge(2, 8);
@@ -377,7 +377,7 @@ public final class ChangesTest {
         Checks.due("the force stays", x.state(5), 9);
         Checks.due("reset", x.reset(1, 1), 0);
         Checks.due("resets", x.state(8), 4);
-        RailPendulum y = stopped();
+        CountedPendulum y = stopped();
         Checks.due("reset of a stop", y.reset(7, 8), 3);
         Checks.due("mode", y.state(1), 0);
         Checks.due("stops", y.state(7), 1);
@@ -389,7 +389,7 @@ public final class ChangesTest {
     }
 
     private static void nudges() {
-        RailPendulum x = Plants.plant("limit 512 9999;");
+        CountedPendulum x = Plants.plant("limit 512 9999;");
         Checks.due("nudge", x.nudge(1, 500), 500);
         Checks.due("nudge", x.nudge(1, -500), 0);
         Checks.due("nudge", x.nudge(2, -500), -500);
@@ -417,7 +417,7 @@ public final class ChangesTest {
             Checks.throwsIndex("link " + link, () -> x.nudge(link, 1));
             Checks.throwsIndex("link is checked first", () -> x.nudge(link, 501));
         }
-        RailPendulum y = stopped();
+        CountedPendulum y = stopped();
         Checks.throwsState("stopped", () -> y.nudge(1, 1));
         Checks.throwsState("stopped", () -> y.nudge(2, 0));
         Checks.throwsArgument("range is checked before mode", () -> y.nudge(1, 501));
@@ -425,14 +425,14 @@ public final class ChangesTest {
     }
 
     private static void forces() {
-        RailPendulum x = new RailPendulum();
+        CountedPendulum x = new CountedPendulum();
         Checks.due("setForce as it is", x.setForce(60), x.regionSize());
         Checks.due("setForce 1", x.setForce(1), x.regionSize());
         Checks.due("force", x.state(5), 1);
         Checks.due("setForce 500", x.setForce(500), x.regionSize());
         Checks.due("force", x.state(5), 500);
         for (int force : new int[] {1, 2, 5, 20, 99, 500}) {
-            RailPendulum y = Plants.plant("push 1 1 " + force + ";");
+            CountedPendulum y = Plants.plant("push 1 1 " + force + ";");
             Checks.due("as a plant with that force", x.setForce(force), y.regionSize());
             for (int i = -2; i <= 2; i++) {
                 for (int j = -2; j <= 2; j++) {
@@ -444,13 +444,13 @@ public final class ChangesTest {
         for (int wrong : new int[] {0, 501, -1, Integer.MIN_VALUE, Integer.MAX_VALUE}) {
             Checks.throwsArgument("setForce " + wrong, () -> x.setForce(wrong));
         }
-        RailPendulum z = stopped();
+        CountedPendulum z = stopped();
         Checks.due("also when stopped", z.setForce(3), z.regionSize());
         Checks.due("also when stopped", z.state(5), 3);
     }
 
     private static void exceptionsChangeNothing() {
-        RailPendulum x = stopped();
+        CountedPendulum x = stopped();
         x.setForce(30);
         String before = Plants.shown(x);
         Checks.throwsArgument("run", () -> x.run(0));
@@ -466,7 +466,7 @@ public final class ChangesTest {
         Checks.throwsState("restoreSnapshot", () -> x.restoreSnapshot(0));
         Checks.sameText("nothing changed", Plants.shown(x), before);
         Checks.due("no changes to undo but the three", x.undo(), 2);
-        RailPendulum y = Plants.plant("limit 512 9999;");
+        CountedPendulum y = Plants.plant("limit 512 9999;");
         for (int k = 0; k < 19; k++) {
             y.nudge(1, 500);
         }

@@ -1,10 +1,11 @@
 /** All promises: long runs of calls, always the same ones, answered by the class and by the Model. */
 public final class ModelTest {
-    private static final int OBJECTS = 260;
-    private static final int CALLS = 400;
+    private static final int OBJECTS = 400;
+    // A text is at most 25 calls of append, one of parse and one of errorPosition.
+    private static final int MOST_CALLS_AT_ONCE = 27;
 
     private static long seed = 20261119;
-    private static RailPendulum x;
+    private static CountedPendulum x;
     private static Model model;
     // What the runs came upon; a run that never meets a case would prove nothing about it.
     private static int balanced;
@@ -17,14 +18,17 @@ public final class ModelTest {
 
     public static void main(String[] args) {
         for (int object = 0; object < OBJECTS; object++) {
-            x = new RailPendulum();
+            x = new CountedPendulum();
             model = new Model();
             if (object % 13 != 0) {
                 handText(plantText(false));
             }
-            for (int call = 0; call < CALLS; call++) {
+            while (x.callsLeft() >= MOST_CALLS_AT_ONCE) {
                 someCall(object);
                 noteWhatWasMet();
+            }
+            while (x.callsLeft() > 0) {
+                compare("undo", () -> x.undo(), model.undo());
             }
         }
         Checks.due("balance was met", balanced > 100, true);
@@ -64,13 +68,13 @@ public final class ModelTest {
     }
 
     private static void noteWhatWasMet() {
-        balanced += x.state(1) == 2 ? 1 : 0;
-        locked += x.state(4) > 0 ? 1 : 0;
-        railEnds += x.stopReason() == 1 ? 1 : 0;
-        overspeeds += x.stopReason() == 2 ? 1 : 0;
-        lateTicks += x.state(0) > 9000 ? 1 : 0;
+        balanced += model.state(1) == 2 ? 1 : 0;
+        locked += model.state(4) > 0 ? 1 : 0;
+        railEnds += model.stopReason() == 1 ? 1 : 0;
+        overspeeds += model.stopReason() == 2 ? 1 : 0;
+        lateTicks += model.state(0) > 9000 ? 1 : 0;
         for (int reason = 0; reason <= 4; reason++) {
-            reasons[reason] += x.cellsWith(reason);
+            reasons[reason] += model.cellsWith(reason);
         }
     }
 
@@ -200,8 +204,8 @@ public final class ModelTest {
         int a = about(0, 4095);
         int b = next(3) == 0 ? about(0, 4095) : a;
         // A stopped plant has little to show: it is mostly reset, and then set to swing up.
-        boolean stopped = x.state(1) == 3 && next(3) != 0;
-        boolean idle = x.state(1) == 0 && next(3) != 0;
+        boolean stopped = model.state(1) == 3 && next(3) != 0;
+        boolean idle = model.state(1) == 0 && next(3) != 0;
         switch (stopped ? 4 : idle ? 2 : next(8)) {
             case 0: case 1: {
                 int ticks = object % 5 == 0 || next(6) == 0 ? about(1, 1000) : between(1, 12);

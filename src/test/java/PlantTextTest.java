@@ -25,7 +25,7 @@ public final class PlantTextTest {
     }
 
     private static void newObject() {
-        RailPendulum x = new RailPendulum();
+        CountedPendulum x = new CountedPendulum();
         Checks.due("NONE", RailPendulum.NONE, -1);
         int[] want = {0, 0, 0, 0, 0, 60, 0, 0, 0};
         for (int what = 0; what <= 8; what++) {
@@ -40,15 +40,15 @@ public final class PlantTextTest {
         Checks.throwsArgument("new: the buffer is empty", () -> x.parse(1));
         Checks.throwsState("new: slot 0 is empty", () -> x.restoreSnapshot(0));
         Checks.throwsState("new: slot 1 is empty", () -> x.restoreSnapshot(1));
-        RailPendulum y = new RailPendulum();
+        CountedPendulum y = new CountedPendulum();
         Checks.due("new: empty text", y.parse(0), 0);
         Checks.sameText("new: as the empty text", Plants.shown(x), Plants.shown(y));
     }
 
     private static void usualNumbers() {
-        RailPendulum x = new RailPendulum();
-        RailPendulum y = Plants.plant(ALL_USUAL);
         for (int k = 0; k < 30; k++) {
+            CountedPendulum x = new CountedPendulum();
+            CountedPendulum y = Plants.plant(ALL_USUAL);
             Checks.sameText("usual: " + k, Plants.shown(x), Plants.shown(y));
             x.reset(k * 5, 4095 - k * 3);
             y.reset(k * 5, 4095 - k * 3);
@@ -56,12 +56,13 @@ public final class PlantTextTest {
             y.setMode(1);
             x.run(40);
             y.run(40);
+            Checks.sameText("usual, swinging: " + k, Plants.shown(x), Plants.shown(y));
         }
     }
 
     /** What applies without a statement, seen from edges that a number more or less would shift. */
     private static void usualEdges() {
-        RailPendulum x = Plants.plant("gravity 0 0; damping 0 0; push 0 0 60; couple 0; region 9 9 0 1;");
+        CountedPendulum x = Plants.plant("gravity 0 0; damping 0 0; push 0 0 60; couple 0; region 9 9 0 1;");
         x.setMode(1);
         x.run(1000);
         Checks.due("rail", x.state(2), 4000);
@@ -79,13 +80,13 @@ public final class PlantTextTest {
             Checks.due("angle of limit", x.run(1), angle == 512 ? 2 : 1);
         }
         String free = "gravity 0 0; damping 0 0; push 0 0 60; couple 0; gains 0 0 0 0 0 0; limit ";
-        RailPendulum y = Plants.plant(free + "183 999;");
+        CountedPendulum y = Plants.plant(free + "183 999;");
         Checks.due("64 + 60 * 32 / 16 is above 183", y.reason(1, 1), 3);
         Checks.due("in step 60", y.failedStep(1, 1), 60);
         Checks.due("but not above 184, and there is no step 61", Plants.plant(free + "184 999;").reason(1, 1), 4);
         // Captured at each odd tick and given up at each even one.
         String flickering = free + "20 9999; region 100 100 0 1;";
-        RailPendulum z = Plants.plant(flickering);
+        CountedPendulum z = Plants.plant(flickering);
         z.reset(30, 30);
         z.setMode(1);
         z.run(4);
@@ -111,7 +112,7 @@ public final class PlantTextTest {
     }
 
     private static void appending() {
-        RailPendulum x = new RailPendulum();
+        CountedPendulum x = new CountedPendulum();
         for (int k = 1; k <= 25; k++) {
             Checks.due("append " + k, x.append(0x20202020, 0x20202020, 0x20202020, 0x20202020, 0x20202020), 20 * k);
         }
@@ -123,24 +124,25 @@ public final class PlantTextTest {
     }
 
     private static void bytesOfArguments() {
-        RailPendulum x = new RailPendulum();
+        CountedPendulum x = new CountedPendulum();
         // "push", " 2 3", " 12;", "rail", "77; "
         Checks.due("append", x.append(0x70757368, 0x20322033, 0x2031323B, 0x7261696C, 0x37373B20), 20);
         Checks.due("parse in order of bytes", x.parse(20), 0);
         Checks.due("force of text", x.state(5), 12);
         for (int place = 0; place < 20; place++) {
+            CountedPendulum y = new CountedPendulum();
             for (int odd : new int[] {0, 9, 10, 13, 31, 33, 47, 58, 64, 90, 96, 123, 127, 128, 160, 176, 255}) {
                 StringBuilder text = new StringBuilder("                    ");
                 text.setCharAt(place, (char) odd);
-                int code = Plants.parse(x, text.toString());
+                int code = Plants.parse(y, text.toString());
                 Checks.due("byte " + odd + " at " + place, code, odd == 10 ? 0 : 1);
-                Checks.due("its position", x.errorPosition(), odd == 10 ? -1 : place);
+                Checks.due("its position", y.errorPosition(), odd == 10 ? -1 : place);
             }
         }
     }
 
     private static void parsingLength() {
-        RailPendulum x = new RailPendulum();
+        CountedPendulum x = new CountedPendulum();
         Checks.throwsArgument("parse(-1)", () -> x.parse(-1));
         Checks.throwsArgument("parse(least)", () -> x.parse(Integer.MIN_VALUE));
         Checks.throwsArgument("parse(most)", () -> x.parse(Integer.MAX_VALUE));
@@ -167,13 +169,13 @@ public final class PlantTextTest {
     }
 
     private static void right(String text) {
-        RailPendulum x = new RailPendulum();
+        CountedPendulum x = new CountedPendulum();
         Checks.due("'" + text + "'", Plants.parse(x, text), 0);
         Checks.due("'" + text + "' position", x.errorPosition(), -1);
     }
 
     private static void wrong(String text, int code, int position) {
-        RailPendulum x = new RailPendulum();
+        CountedPendulum x = new CountedPendulum();
         Checks.due("'" + text + "'", Plants.parse(x, text), code);
         Checks.due("'" + text + "' position", x.errorPosition(), position);
     }
@@ -324,7 +326,7 @@ public final class PlantTextTest {
     }
 
     private static void errorPositionLasts() {
-        RailPendulum x = new RailPendulum();
+        CountedPendulum x = new CountedPendulum();
         Plants.parse(x, "rail 5; #");
         Checks.due("position", x.errorPosition(), 8);
         x.run(3);
@@ -338,7 +340,7 @@ public final class PlantTextTest {
     }
 
     private static void successStartsAnew() {
-        RailPendulum x = new RailPendulum();
+        CountedPendulum x = new CountedPendulum();
         x.reset(10, 4090);
         x.setMode(1);
         x.run(5);
@@ -364,7 +366,7 @@ public final class PlantTextTest {
     private static void successForgetsSwitches() {
         String text = "rail 9999; gravity 0 0; damping 0 0; push 0 0 1; couple 0; gains 0 0 0 0 0 0;"
                 + "region 100 100 0 1; limit 20 9999; chatter 20 21 7;";
-        RailPendulum x = Plants.plant(text);
+        CountedPendulum x = Plants.plant(text);
         x.reset(30, 30);
         x.setMode(1);
         x.run(400);
@@ -383,7 +385,7 @@ public final class PlantTextTest {
     }
 
     private static void errorChangesNothing() {
-        RailPendulum x = new RailPendulum();
+        CountedPendulum x = new CountedPendulum();
         x.reset(10, 4090);
         x.setMode(1);
         x.run(5);

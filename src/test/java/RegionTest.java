@@ -19,7 +19,7 @@ public final class RegionTest {
 
     private static void freeLinks() {
         // In 4 steps, a speed of 160 turns by 40 and one of 320 by 80.
-        RailPendulum x = Plants.plant(FREE + "region 100 160 2 4; limit 270 1000;");
+        CountedPendulum x = Plants.plant(FREE + "region 100 160 2 4; limit 270 1000;");
         int[][] reasons = {
             // j = -2, -1, 0, 1, 2 for i = -2 to 2
             {3, 4, 4, 4, 4},
@@ -44,7 +44,7 @@ public final class RegionTest {
             Checks.due("cellsWith " + other, x.cellsWith(other), 0);
         }
         // The edges themselves: 200 + 80 is not above a limit of 280, and 100 not above a region of 100.
-        RailPendulum y = Plants.plant(FREE + "region 100 160 2 4; limit 280 1000;");
+        CountedPendulum y = Plants.plant(FREE + "region 100 160 2 4; limit 280 1000;");
         Checks.due("just the limit", y.reason(2, 2), 4);
         Checks.due("just the limit", y.reason(-2, -2), 4);
         Checks.due("just the region", y.reason(1, 0), 0);
@@ -53,7 +53,7 @@ public final class RegionTest {
 
     private static void railEnd() {
         // The push is the force, 80, in each step: x is 10, 30, 60 behind the steps.
-        RailPendulum x = Plants.plant("rail 59; gravity 0 0; damping 0 0; push 0 0 80; couple 0; gains 99 0 0 0 0 0;"
+        CountedPendulum x = Plants.plant("rail 59; gravity 0 0; damping 0 0; push 0 0 80; couple 0; gains 99 0 0 0 0 0;"
                 + "region 100 1 1 9; limit 2000 100;");
         Checks.due("reason", x.reason(1, 0), 1);
         Checks.due("failedStep", x.failedStep(1, 0), 3);
@@ -61,14 +61,14 @@ public final class RegionTest {
         Checks.due("failedStep to the left", x.failedStep(-1, 0), 3);
         Checks.due("upright", x.reason(0, 0), 0);
         Checks.due("upright", x.failedStep(0, 0), -1);
-        RailPendulum y = Plants.plant("rail 60; gravity 0 0; damping 0 0; push 0 0 80; couple 0; gains 99 0 0 0 0 0;"
+        CountedPendulum y = Plants.plant("rail 60; gravity 0 0; damping 0 0; push 0 0 80; couple 0; gains 99 0 0 0 0 0;"
                 + "region 100 1 1 3; limit 2000 100;");
         Checks.due("just the end", y.reason(1, 0), 0);
         Checks.due("just the end", y.reason(-1, 0), 0);
     }
 
     private static void overspeed() {
-        RailPendulum x = Plants.plant(FREE + "region 500 100 3 5; limit 2000 200;");
+        CountedPendulum x = Plants.plant(FREE + "region 500 100 3 5; limit 2000 200;");
         Checks.due("beyond", x.reason(0, 3), 2);
         Checks.due("beyond", x.failedStep(0, 3), 1);
         Checks.due("beyond", x.reason(0, -3), 2);
@@ -77,7 +77,7 @@ public final class RegionTest {
     }
 
     private static void smallestCodeInAStep() {
-        RailPendulum all = Plants.plant("rail 9; gravity 0 0; damping 0 0; push 0 0 80; couple 0; gains 99 0 0 0 0 0;"
+        CountedPendulum all = Plants.plant("rail 9; gravity 0 0; damping 0 0; push 0 0 80; couple 0; gains 99 0 0 0 0 0;"
                 + "region 100 100 1 9; limit 50 50;");
         Checks.due("a rail end", all.reason(1, 1), 1);
         Checks.due("in the first step", all.failedStep(1, 1), 1);
@@ -87,11 +87,11 @@ public final class RegionTest {
 
     private static void whichHappensFirst() {
         // The lean is beyond the limit in step 2 (100 + 50 * 2), the cart at the end in step 3.
-        RailPendulum x = Plants.plant("rail 59; gravity 0 0; damping 0 0; push 0 0 80; couple 0; gains 99 0 0 0 0 0;"
+        CountedPendulum x = Plants.plant("rail 59; gravity 0 0; damping 0 0; push 0 0 80; couple 0; gains 99 0 0 0 0 0;"
                 + "region 100 400 1 9; limit 149 900;");
         Checks.due("reason", x.reason(1, 1), 3);
         Checks.due("failedStep", x.failedStep(1, 1), 2);
-        RailPendulum y = Plants.plant("rail 59; gravity 0 0; damping 0 0; push 0 0 80; couple 0; gains 99 0 0 0 0 0;"
+        CountedPendulum y = Plants.plant("rail 59; gravity 0 0; damping 0 0; push 0 0 80; couple 0; gains 99 0 0 0 0 0;"
                 + "region 100 400 1 9; limit 199 900;");
         Checks.due("reason", y.reason(1, 1), 1);
         Checks.due("failedStep", y.failedStep(1, 1), 3);
@@ -99,7 +99,7 @@ public final class RegionTest {
 
     private static void onlyAngles() {
         // The first lean is not looked at, only the lean behind a step: here 2000 - 31.
-        RailPendulum x = Plants.plant(FREE + "region 500 500 3 1; limit 1499 9999;");
+        CountedPendulum x = Plants.plant(FREE + "region 500 500 3 1; limit 1499 9999;");
         Checks.due("leaves the limit", x.reason(3, -1), 4);
         Checks.due("stays beyond the limit", x.reason(3, 0), 3);
         Checks.due("stays beyond the limit", x.failedStep(3, 0), 1);
@@ -110,7 +110,7 @@ public final class RegionTest {
     private static void forceOfNow() {
         String text = "rail 59; gravity 0 0; damping 0 0; push 0 0 80; couple 0; gains 99 0 99 0 0 0;"
                 + "region 100 1 1 3; limit 2000 100;";
-        RailPendulum x = Plants.plant(text);
+        CountedPendulum x = Plants.plant(text);
         Checks.due("reason by the first force", x.reason(1, 0), 1);
         Checks.due("regionSize", x.regionSize(), 3);
         x.run(50);
@@ -133,7 +133,7 @@ public final class RegionTest {
 
     private static void cells() {
         for (int count = 0; count <= 3; count++) {
-            RailPendulum x = Plants.plant("region 9 9 " + count + " 3;");
+            CountedPendulum x = Plants.plant("region 9 9 " + count + " 3;");
             int inAll = (2 * count + 1) * (2 * count + 1);
             int sum = 0;
             for (int reason = 0; reason <= 4; reason++) {
@@ -153,7 +153,7 @@ public final class RegionTest {
 
     private static void cellsOfLinks() {
         // An odd angle of 5: the cells end at 2.5, 7.5; an even speed of 4: at 2, which belongs above.
-        RailPendulum x = Plants.plant("region 5 4 1 1;");
+        CountedPendulum x = Plants.plant("region 5 4 1 1;");
         int[][] leans = {{0, 0}, {2, 0}, {3, 1}, {7, 1}, {8, 2}, {-2, 0}, {-3, -1}, {-7, -1}, {-8, -2}, {-2048, -410}};
         for (int[] one : leans) {
             x.reset(one[0] & 4095, 0);
@@ -178,7 +178,7 @@ public final class RegionTest {
 
     private static void capturable() {
         // As in freeLinks, but the limit lets only cells (0, j) and some of (1, j) and (-1, j) be verified.
-        RailPendulum x = Plants.plant(FREE + "region 100 160 2 4; limit 270 1000;");
+        CountedPendulum x = Plants.plant(FREE + "region 100 160 2 4; limit 270 1000;");
         Checks.due("hanging", x.isCapturable(), false);
         x.reset(0, 0);
         Checks.due("upright", x.isCapturable(), true);
@@ -205,7 +205,7 @@ public final class RegionTest {
         x.nudge(2, -1);
         Checks.due("(0, -3) is beyond count", x.isCapturable(), false);
 
-        RailPendulum y = Plants.plant(FREE + "region 100 160 0 4;");
+        CountedPendulum y = Plants.plant(FREE + "region 100 160 0 4;");
         y.reset(49, 4046);
         Checks.due("count 0", y.isCapturable(), true);
         y.reset(50, 0);

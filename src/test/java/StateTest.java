@@ -19,7 +19,7 @@ public final class StateTest {
     }
 
     private static void states() {
-        RailPendulum x = Plants.plant("gravity 0 0; push 0 0 60; couple 0; rail 1000;");
+        CountedPendulum x = Plants.plant("gravity 0 0; push 0 0 60; couple 0; rail 1000;");
         x.setMode(1);
         // p is 0 at rest, so that each tick pushes the cart by the force.
         Checks.due("run", x.run(3), 1);
@@ -44,13 +44,13 @@ public final class StateTest {
         Checks.due("stops stay", x.state(7), 1);
         Checks.due("tick stays", x.state(0), 1003);
 
-        RailPendulum y = Plants.plant(FLICKERING);
+        CountedPendulum y = Plants.plant(FLICKERING);
         y.reset(200, 200);
         y.setMode(1);
         y.run(25);
         Checks.due("switches", y.state(6), 25);
         Checks.due("hold 0 is no lock", y.state(4), 0);
-        RailPendulum z = Plants.plant(FLICKERING.replace("20 20 0", "2 20 9"));
+        CountedPendulum z = Plants.plant(FLICKERING.replace("20 20 0", "2 20 9"));
         z.reset(200, 200);
         z.setMode(1);
         z.run(3);
@@ -60,7 +60,7 @@ public final class StateTest {
     }
 
     private static void links() {
-        RailPendulum x = new RailPendulum();
+        CountedPendulum x = new CountedPendulum();
         x.reset(5, 2048);
         x.nudge(1, 33);
         x.nudge(2, -44);
@@ -76,7 +76,7 @@ public final class StateTest {
     }
 
     private static void energies() {
-        RailPendulum x = new RailPendulum();
+        CountedPendulum x = new CountedPendulum();
         Checks.due("energy 1", x.energy(1), -417200);
         Checks.due("energy 2", x.energy(2), -625800);
         Checks.due("target 1", x.target(1), 417200);
@@ -94,7 +94,7 @@ public final class StateTest {
         x.nudge(1, 1);
         Checks.due("parts are cut one by one", x.energy(1), -611);
 
-        RailPendulum y = Plants.plant("gravity 200 0;");
+        CountedPendulum y = Plants.plant("gravity 200 0;");
         Checks.due("target 1", y.target(1), 2086000);
         Checks.due("target 2", y.target(2), 0);
         Checks.due("energy 1", y.energy(1), -2086000);
@@ -109,8 +109,8 @@ public final class StateTest {
         Checks.due("fast backwards", y.energy(2), 9500L * 9500 / 2);
     }
 
-    private static RailPendulum balancing(String text, int a1, int a2, int w1, int w2) {
-        RailPendulum x = Plants.plant(text);
+    private static CountedPendulum balancing(String text, int a1, int a2, int w1, int w2) {
+        CountedPendulum x = Plants.plant(text);
         x.reset(a1, a2);
         x.nudge(1, w1);
         x.nudge(2, w2);
@@ -131,9 +131,9 @@ public final class StateTest {
         Checks.due("each gain", balancing("gains 0 64 0 0 0 0; push 1 1 500;", 3, 50, 70, 110).push(), 70);
         Checks.due("each gain", balancing("gains 0 0 64 0 0 0; push 1 1 500;", 3, 50, 70, 110).push(), 50);
         Checks.due("each gain", balancing("gains 0 0 0 64 0 0; push 1 1 500;", 3, 50, 70, 110).push(), 110);
-        RailPendulum x = Plants.plant("gains 0 0 0 0 64 0; gravity 0 0; push 0 0 60; couple 0;");
-        RailPendulum y = Plants.plant("gains 0 0 0 0 0 64; gravity 0 0; push 0 0 60; couple 0;");
-        for (RailPendulum z : new RailPendulum[] {x, y}) {
+        CountedPendulum x = Plants.plant("gains 0 0 0 0 64 0; gravity 0 0; push 0 0 60; couple 0;");
+        CountedPendulum y = Plants.plant("gains 0 0 0 0 0 64; gravity 0 0; push 0 0 60; couple 0;");
+        for (CountedPendulum z : new CountedPendulum[] {x, y}) {
             z.setMode(1);
             z.run(3);
             z.setForce(500);
@@ -143,8 +143,8 @@ public final class StateTest {
         Checks.due("gain of v", y.push(), 180);
     }
 
-    private static RailPendulum swinging(int angle, int speed) {
-        RailPendulum x = new RailPendulum();
+    private static CountedPendulum swinging(int angle, int speed) {
+        CountedPendulum x = new CountedPendulum();
         x.reset(angle, 2048);
         x.nudge(1, speed);
         x.setMode(1);
@@ -163,7 +163,7 @@ public final class StateTest {
         Checks.due("fast enough, p below 0", swinging(0, -10).push(), -60);
         Checks.due("the target itself, p above 0", swinging(0, 1).push(), 60);
         Checks.due("the target itself, p below 0", swinging(0, -1).push(), -60);
-        RailPendulum x = swinging(2048, 500);
+        CountedPendulum x = swinging(2048, 500);
         x.nudge(1, 500);
         x.nudge(1, 291);
         Checks.due("energy one step below", x.energy(1) < x.target(1), true);
@@ -174,7 +174,7 @@ public final class StateTest {
         x.setForce(9);
         Checks.due("the force of now", x.push(), -9);
         // A far-out state that could not be captured, and one that could: the mode stays what it is.
-        RailPendulum y = new RailPendulum();
+        CountedPendulum y = new CountedPendulum();
         y.reset(0, 0);
         y.setMode(1);
         Checks.due("capturable", y.isCapturable(), true);
@@ -182,10 +182,10 @@ public final class StateTest {
     }
 
     private static void noPush() {
-        RailPendulum x = new RailPendulum();
+        CountedPendulum x = new CountedPendulum();
         x.reset(60, 20);
         Checks.due("idle", x.push(), 0);
-        RailPendulum y = Plants.plant("limit 512 10;");
+        CountedPendulum y = Plants.plant("limit 512 10;");
         y.reset(60, 20);
         y.nudge(1, 100);
         y.run(1);
@@ -194,7 +194,7 @@ public final class StateTest {
     }
 
     private static void stopReasons() {
-        RailPendulum x = Plants.plant("rail 6; limit 512 100; push 0 0 60; gravity 0 0; damping 0 0; couple 0;");
+        CountedPendulum x = Plants.plant("rail 6; limit 512 100; push 0 0 60; gravity 0 0; damping 0 0; couple 0;");
         Checks.due("none yet", x.stopReason(), 0);
         x.nudge(1, 101);
         Checks.due("not by a nudge", x.state(1), 0);
@@ -226,7 +226,7 @@ public final class StateTest {
     }
 
     private static void switchCounts() {
-        RailPendulum x = Plants.plant(FLICKERING);
+        CountedPendulum x = Plants.plant(FLICKERING);
         Checks.due("none", x.switchesIn(200), 0);
         x.reset(200, 200);
         x.setMode(1);
@@ -252,7 +252,7 @@ public final class StateTest {
         Checks.due("all too long ago", x.switchesIn(200), 0);
         Checks.due("since the beginning", x.state(6), 400);
 
-        RailPendulum y = Plants.plant(FLICKERING.replace("limit 1 9999", "limit 1 100"));
+        CountedPendulum y = Plants.plant(FLICKERING.replace("limit 1 9999", "limit 1 100"));
         y.reset(200, 200);
         y.setMode(1);
         y.run(3);
@@ -266,7 +266,7 @@ public final class StateTest {
     }
 
     private static void wrongInputs() {
-        RailPendulum x = new RailPendulum();
+        CountedPendulum x = new CountedPendulum();
         for (int what : new int[] {-1, 9, Integer.MIN_VALUE, Integer.MAX_VALUE}) {
             Checks.throwsArgument("state " + what, () -> x.state(what));
             Checks.throwsArgument("link 1 " + what, () -> x.link(1, what));

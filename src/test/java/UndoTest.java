@@ -14,8 +14,8 @@ public final class UndoTest {
     }
 
     /** An object in which every part of the situation has some value of its own. */
-    private static RailPendulum lively() {
-        RailPendulum x = Plants.plant("gravity 0 0; damping 0 0; push 0 0 80; couple 0; gains 9 0 9 0 0 0; rail 900;"
+    private static CountedPendulum lively() {
+        CountedPendulum x = Plants.plant("gravity 0 0; damping 0 0; push 0 0 80; couple 0; gains 9 0 9 0 0 0; rail 900;"
                 + "region 100 100 1 9; limit 20 700; chatter 1 9 500;");
         x.reset(30, 30);
         x.setMode(1);
@@ -25,25 +25,17 @@ public final class UndoTest {
     }
 
     private static void eachChangeIsUndone() {
-        RailPendulum x = lively();
-        String[] before = new String[6];
-        before[0] = Plants.shown(x);
-        x.run(300);
-        before[1] = Plants.shown(x);
-        Checks.due("stopped meanwhile", x.state(1), 3);
-        x.reset(5, 6);
-        before[2] = Plants.shown(x);
-        x.setMode(2);
-        before[3] = Plants.shown(x);
-        x.nudge(2, -77);
-        before[4] = Plants.shown(x);
-        x.setForce(1);
-        before[5] = Plants.shown(x);
-        x.run(1);
-        for (int k = 5; k >= 0; k--) {
-            Checks.due("changes left", x.undo(), k + 4);
-            Checks.sameText("undone to " + k, Plants.shown(x), before[k]);
+        for (int kept = 0; kept <= 6; kept++) {
+            CountedPendulum x = lively();
+            firstChanges(x, 6);
+            for (int k = 5; k >= kept; k--) {
+                Checks.due("changes left", x.undo(), k + 4);
+            }
+            CountedPendulum y = lively();
+            firstChanges(y, kept);
+            Checks.sameText("undone to " + kept, Plants.shown(x), Plants.shown(y));
         }
+        CountedPendulum x = lively();
         for (int k = 3; k >= 0; k--) {
             Checks.due("changes left", x.undo(), k);
         }
@@ -54,8 +46,21 @@ public final class UndoTest {
         Checks.due("as at the beginning", x.link(1, 0), 2048);
     }
 
+    private static void firstChanges(CountedPendulum x, int howMany) {
+        for (int k = 0; k < howMany; k++) {
+            switch (k) {
+                case 0: Checks.due("run: stopped", x.run(300), 3); break;
+                case 1: Checks.due("reset", x.reset(5, 6), 3); break;
+                case 2: Checks.due("setMode", x.setMode(2), 0); break;
+                case 3: Checks.due("nudge", x.nudge(2, -77), -77); break;
+                case 4: Checks.due("setForce", x.setForce(1), x.regionSize()); break;
+                default: x.run(1); break;
+            }
+        }
+    }
+
     private static void atMostTen() {
-        RailPendulum x = new RailPendulum();
+        CountedPendulum x = new CountedPendulum();
         for (int k = 1; k <= 25; k++) {
             x.run(k);
         }
@@ -71,7 +76,7 @@ public final class UndoTest {
     }
 
     private static void undoAndGoOn() {
-        RailPendulum x = new RailPendulum();
+        CountedPendulum x = new CountedPendulum();
         for (int k = 1; k <= 8; k++) {
             x.reset(k, k);
         }
@@ -92,7 +97,7 @@ public final class UndoTest {
     }
 
     private static void whatIsNoChange() {
-        RailPendulum x = new RailPendulum();
+        CountedPendulum x = new CountedPendulum();
         x.run(1);
         x.append(1, 2, 3, 4, 5);
         x.parse(20);
@@ -109,7 +114,7 @@ public final class UndoTest {
     }
 
     private static void snapshots() {
-        RailPendulum x = new RailPendulum();
+        CountedPendulum x = new CountedPendulum();
         Checks.throwsState("empty", () -> x.restoreSnapshot(0));
         x.run(5);
         Checks.due("no earlier one", x.saveSnapshot(0), false);
@@ -133,7 +138,7 @@ public final class UndoTest {
     }
 
     private static void snapshotsHoldAll() {
-        RailPendulum x = lively();
+        CountedPendulum x = lively();
         x.saveSnapshot(1);
         String before = Plants.shown(x);
         x.run(300);
@@ -146,25 +151,49 @@ public final class UndoTest {
         Checks.due("much has changed", Plants.shown(x).equals(before), false);
         Checks.due("restore", x.restoreSnapshot(1), 3);
         Checks.sameText("all is as before", Plants.shown(x), before);
-        RailPendulum y = lively();
-        for (int k = 0; k < 40; k++) {
-            x.run(3);
-            y.run(3);
-            Checks.sameText("and goes on so", Plants.shown(x), Plants.shown(y));
+        for (int ticks = 3; ticks <= 120; ticks += 3) {
+            CountedPendulum y = lively();
+            y.saveSnapshot(1);
+            y.run(300);
+            y.setForce(2);
+            y.restoreSnapshot(1);
+            y.run(ticks);
+            CountedPendulum z = lively();
+            z.run(ticks);
+            Checks.sameText("and goes on so", Plants.shown(y), Plants.shown(z));
         }
         // A stop that the snapshot holds comes back as well.
-        x.run(400);
-        Checks.due("stopped", x.state(1), 3);
-        x.saveSnapshot(0);
-        x.reset(0, 0);
-        x.restoreSnapshot(0);
-        Checks.due("stopped again", x.state(1), 3);
-        Checks.due("by the rail's end", x.stopReason(), 1);
+        CountedPendulum v = lively();
+        v.run(500);
+        Checks.due("stopped", v.state(1), 3);
+        v.saveSnapshot(0);
+        v.reset(0, 0);
+        v.restoreSnapshot(0);
+        Checks.due("stopped again", v.state(1), 3);
+        Checks.due("by the rail's end", v.stopReason(), 1);
     }
 
     /** The switches of the latest 200 ticks come back, even after ticks that have pushed them out. */
     private static void switchesComeBack() {
-        RailPendulum x = Plants.plant("rail 9999; gravity 0 0; damping 0 0; push 0 0 1; couple 0; gains 0 0 0 0 0 0;"
+        CountedPendulum x = withManySwitches();
+        x.setMode(0);
+        x.run(300);
+        Checks.due("all pushed out", x.switchesIn(200), 0);
+        x.undo();
+        x.undo();
+        manySwitches("undone", x);
+        CountedPendulum y = withManySwitches();
+        y.saveSnapshot(0);
+        y.setMode(0);
+        y.run(300);
+        Checks.due("all pushed out", y.switchesIn(200), 0);
+        y.restoreSnapshot(0);
+        manySwitches("restored", y);
+    }
+
+    /** A switch in each of 130 ticks, none in 7, one in each of 101. */
+    private static CountedPendulum withManySwitches() {
+        CountedPendulum x = Plants.plant("rail 9999; gravity 0 0; damping 0 0; push 0 0 1; couple 0; gains 0 0 0 0 0 0;"
                 + "region 100 100 0 1; limit 20 9999; chatter 20 20 0;");
         x.reset(30, 30);
         x.setMode(1);
@@ -173,31 +202,18 @@ public final class UndoTest {
         x.run(7);
         x.setMode(1);
         x.run(101);
-        int[] counts = new int[201];
+        return x;
+    }
+
+    private static void manySwitches(String what, CountedPendulum x) {
         for (int ticks = 1; ticks <= 200; ticks++) {
-            counts[ticks] = x.switchesIn(ticks);
-            Checks.due("switchesIn " + ticks, counts[ticks], ticks <= 101 ? ticks : Math.max(101, ticks - 7));
+            Checks.due(what + ": switchesIn " + ticks, x.switchesIn(ticks), ticks <= 101 ? ticks : Math.max(101, ticks - 7));
         }
-        x.saveSnapshot(0);
-        x.setMode(0);
-        x.run(300);
-        Checks.due("all pushed out", x.switchesIn(200), 0);
-        x.undo();
-        x.undo();
-        for (int ticks = 1; ticks <= 200; ticks++) {
-            Checks.due("undone: switchesIn " + ticks, x.switchesIn(ticks), counts[ticks]);
-        }
-        x.setMode(0);
-        x.run(300);
-        x.restoreSnapshot(0);
-        for (int ticks = 1; ticks <= 200; ticks++) {
-            Checks.due("restored: switchesIn " + ticks, x.switchesIn(ticks), counts[ticks]);
-        }
-        Checks.due("restored: switches", x.state(6), 231);
+        Checks.due(what + ": switches", x.state(6), 231);
     }
 
     private static void slotsApart() {
-        RailPendulum x = new RailPendulum();
+        CountedPendulum x = new CountedPendulum();
         x.run(1);
         Checks.due("slot 1", x.saveSnapshot(1), false);
         x.run(1);
@@ -210,7 +226,7 @@ public final class UndoTest {
     }
 
     private static void wrongSlots() {
-        RailPendulum x = new RailPendulum();
+        CountedPendulum x = new CountedPendulum();
         for (int wrong : new int[] {-1, 2, Integer.MIN_VALUE, Integer.MAX_VALUE}) {
             Checks.throwsIndex("saveSnapshot " + wrong, () -> x.saveSnapshot(wrong));
             Checks.throwsIndex("restoreSnapshot " + wrong, () -> x.restoreSnapshot(wrong));

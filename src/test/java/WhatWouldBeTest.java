@@ -15,7 +15,7 @@ public final class WhatWouldBeTest {
     }
 
     private static void balance() {
-        RailPendulum x = new RailPendulum();
+        CountedPendulum x = new CountedPendulum();
         Checks.due("idle", x.ticksToBalance(1000), -1);
         x.reset(0, 0);
         x.setMode(1);
@@ -27,14 +27,14 @@ public final class WhatWouldBeTest {
 
         // The links turn back by 10 in a tick; lean 97 is the last one in cell (1, 0), and 152 - 6 * 10 is 92.
         // The tick that captures looks at the state before its own step, so it is the seventh.
-        RailPendulum y = Plants.plant("gravity 0 0; damping 0 0; push 0 0 1; couple 0; region 65 400 1 1; rail 9999;");
+        CountedPendulum y = Plants.plant("gravity 0 0; damping 0 0; push 0 0 1; couple 0; region 65 400 1 1; rail 9999;");
         y.reset(152, 152);
         y.nudge(1, -160);
         y.nudge(2, -160);
         y.setMode(1);
         Checks.due("cell (1, 0) is verified", y.reason(1, 0), 0);
         int due = 0;
-        RailPendulum z = Plants.plant("gravity 0 0; damping 0 0; push 0 0 1; couple 0; region 65 400 1 1; rail 9999;");
+        CountedPendulum z = Plants.plant("gravity 0 0; damping 0 0; push 0 0 1; couple 0; region 65 400 1 1; rail 9999;");
         z.reset(152, 152);
         z.nudge(1, -160);
         z.nudge(2, -160);
@@ -47,7 +47,7 @@ public final class WhatWouldBeTest {
         Checks.due("just not", y.ticksToBalance(6), -1);
 
         // Captured and stopped in one tick: the mode is not 2 behind that tick.
-        RailPendulum v = Plants.plant("rail 1; push 1 1 500; gains 99 0 0 0 0 0; region 64 32 0 1;");
+        CountedPendulum v = Plants.plant("rail 1; push 1 1 500; gains 99 0 0 0 0 0; region 64 32 0 1;");
         v.reset(31, 0);
         v.setMode(1);
         Checks.due("capturable", v.isCapturable(), true);
@@ -59,7 +59,7 @@ public final class WhatWouldBeTest {
     }
 
     private static void stop() {
-        RailPendulum x = Plants.plant(PUSHED + "99;");
+        CountedPendulum x = Plants.plant(PUSHED + "99;");
         Checks.due("idle", x.ticksToStop(1000), -1);
         x.setMode(1);
         Checks.due("behind the fourth tick", x.ticksToStop(1000), 4);
@@ -74,7 +74,7 @@ public final class WhatWouldBeTest {
     }
 
     private static void distance() {
-        RailPendulum x = Plants.plant(PUSHED + "105;");
+        CountedPendulum x = Plants.plant(PUSHED + "105;");
         x.setMode(1);
         int[] distances = {0, 10, 30, 60, 100, 105, 105};
         for (int ticks = 0; ticks < distances.length; ticks++) {
@@ -86,7 +86,7 @@ public final class WhatWouldBeTest {
         Checks.due("and one more", x.farthest(1), 60);
 
         // To the left: -80 in each tick while link 1 turns with p above 0; then back over the start.
-        RailPendulum y = Plants.plant("damping 0 0; push 0 0 80; couple 0; region 9 9 0 1; gravity 1 0; rail 300;");
+        CountedPendulum y = Plants.plant("damping 0 0; push 0 0 80; couple 0; region 9 9 0 1; gravity 1 0; rail 300;");
         y.reset(300, 300);
         y.nudge(1, 16);
         y.setMode(1);
@@ -98,7 +98,7 @@ public final class WhatWouldBeTest {
         y.setMode(2);
         int least = y.state(2);
         int most = least;
-        RailPendulum z = Plants.plant("damping 0 0; push 0 0 80; couple 0; region 9 9 0 1; gravity 1 0; rail 300;");
+        CountedPendulum z = Plants.plant("damping 0 0; push 0 0 80; couple 0; region 9 9 0 1; gravity 1 0; rail 300;");
         z.reset(300, 300);
         z.nudge(1, 16);
         z.setMode(1);
@@ -113,12 +113,12 @@ public final class WhatWouldBeTest {
     }
 
     private static void links() {
-        RailPendulum x = new RailPendulum();
+        CountedPendulum x = new CountedPendulum();
         x.reset(300, 3900);
         x.nudge(1, 90);
         x.nudge(2, -70);
         x.setMode(1);
-        RailPendulum y = new RailPendulum();
+        CountedPendulum y = new CountedPendulum();
         y.reset(300, 3900);
         y.nudge(1, 90);
         y.nudge(2, -70);
@@ -136,7 +136,7 @@ public final class WhatWouldBeTest {
     }
 
     private static void beyondTheLatestTick() {
-        RailPendulum x = Plants.plant("gravity 0 0; damping 0 0; push 0 0 80; couple 0; region 9 9 0 1; rail 99;");
+        CountedPendulum x = Plants.plant("gravity 0 0; damping 0 0; push 0 0 80; couple 0; region 9 9 0 1; rail 99;");
         for (int k = 0; k < 9; k++) {
             x.run(1000);
         }
@@ -156,7 +156,7 @@ public final class WhatWouldBeTest {
     }
 
     private static void nothingChanges() {
-        RailPendulum x = new RailPendulum();
+        CountedPendulum x = new CountedPendulum();
         x.reset(10, 4000);
         x.nudge(1, 40);
         x.setMode(1);
@@ -177,7 +177,7 @@ public final class WhatWouldBeTest {
     }
 
     private static void wrongInputs() {
-        RailPendulum x = new RailPendulum();
+        CountedPendulum x = new CountedPendulum();
         for (int wrong : new int[] {-1, 1001, Integer.MIN_VALUE, Integer.MAX_VALUE}) {
             Checks.throwsArgument("ticksToBalance " + wrong, () -> x.ticksToBalance(wrong));
             Checks.throwsArgument("ticksToStop " + wrong, () -> x.ticksToStop(wrong));
