@@ -21,36 +21,27 @@ public final class ChangesTest {
         Checks.finish();
     }
 
-    private static void moved(String what, CountedPendulum x, int[] want) {
-        Checks.due(what + ": x", x.state(2), want[0]);
-        Checks.due(what + ": v", x.state(3), want[1]);
-        Checks.due(what + ": a1", x.link(1, 0), want[2]);
-        Checks.due(what + ": w1", x.link(1, 1), want[3]);
-        Checks.due(what + ": a2", x.link(2, 0), want[4]);
-        Checks.due(what + ": w2", x.link(2, 1), want[5]);
-    }
-
     private static void oneStep() {
         // sine(1024) is 4096, so that gravity adds 40 and 60; they pull apart by 10 * sine(0) / 4096.
         CountedPendulum x = new CountedPendulum();
         x.reset(1024, 1024);
         x.run(1);
-        moved("level", x, new int[] {0, 0, 1026, 40, 1027, 60});
+        Plants.moved("level", x, 0, 0, 1026, 40, 1027, 60);
         // Damping: 8 * 400 / 4096 is 0, 8 * 500 * 2 / 4096 is 1, and so for speeds below 0.
         CountedPendulum y = Plants.plant("gravity 0 0; couple 0; damping 8 400;");
         y.reset(0, 0);
         y.nudge(1, 500);
         y.nudge(2, -500);
         y.run(1);
-        moved("damped", y, new int[] {0, 0, 31, 500, 4068, -452});
+        Plants.moved("damped", y, 0, 0, 31, 500, 4068, -452);
         y.nudge(1, 500);
         y.run(1);
-        moved("damped", y, new int[] {0, 0, 31 + 62, 999, 4068 - 25, -408});
+        Plants.moved("damped", y, 0, 0, 31 + 62, 999, 4068 - 25, -408);
         // A push of 60 with cosines of -4096 adds 60 and 120; the cart goes by 60 / 8.
         CountedPendulum z = Plants.plant("push 1 2 60; damping 0 0;");
         z.setMode(1);
         z.run(1);
-        moved("pushed", z, new int[] {7, 60, 2048 + 3, 60, 2048 + 7, 120});
+        Plants.moved("pushed", z, 7, 60, 2048 + 3, 60, 2048 + 7, 120);
     }
 
     private static void stepsCutEachQuotient() {
@@ -58,14 +49,14 @@ public final class ChangesTest {
         CountedPendulum x = Plants.plant("gravity 1 1; damping 0 0; couple 1;");
         x.reset(100, 3996);
         x.run(1);
-        moved("cut", x, new int[] {0, 0, 100, 0, 3996, 0});
+        Plants.moved("cut", x, 0, 0, 100, 0, 3996, 0);
         // g * sine and c * u * cosine are put together before they are cut: 3 * 2891 - 2 * 2891 is less than 4096.
         CountedPendulum y = Plants.plant("gravity 3 0; push 2 0 1; damping 0 0; couple 0; gains 0 0 0 0 0 0;");
         y.reset(512, 0);
         y.setMode(1);
         Checks.due("push", y.push(), 1);
         y.run(1);
-        moved("together", y, new int[] {0, 1, 512, 0, 0, 0});
+        Plants.moved("together", y, 0, 1, 512, 0, 0, 0);
         // -15 / 16 is 0, and so is 15 / 16; 7 / 8 is 0.
         CountedPendulum z = Plants.plant("gravity 0 0; damping 0 0; couple 0; push 0 0 7;");
         z.reset(1024, 1024);
@@ -73,13 +64,13 @@ public final class ChangesTest {
         z.nudge(2, -15);
         z.setMode(1);
         z.run(1);
-        moved("small", z, new int[] {0, 7, 1024, 15, 1024, -15});
+        Plants.moved("small", z, 0, 7, 1024, 15, 1024, -15);
         z.run(1);
-        moved("small", z, new int[] {1, 14, 1024, 15, 1024, -15});
+        Plants.moved("small", z, 1, 14, 1024, 15, 1024, -15);
         z.nudge(1, 1);
         z.nudge(2, -1);
         z.run(1);
-        moved("just a part", z, new int[] {3, 21, 1025, 16, 1023, -16});
+        Plants.moved("just a part", z, 3, 21, 1025, 16, 1023, -16);
     }
 
     private static void quotientsOf4096() {
@@ -89,18 +80,18 @@ public final class ChangesTest {
         x.nudge(1, 64);
         x.nudge(2, 65);
         x.run(1);
-        moved("damped", x, new int[] {0, 0, 3, 63, 4, 65});
+        Plants.moved("damped", x, 0, 0, 3, 63, 4, 65);
         // So is sine(1024), but not sine(1023).
         CountedPendulum y = Plants.plant("gravity 1 1; damping 0 0; couple 0;");
         y.reset(1024, 1023);
         y.run(1);
-        moved("pulled", y, new int[] {0, 0, 1024, 1, 1023, 0});
+        Plants.moved("pulled", y, 0, 0, 1024, 1, 1023, 0);
         for (int apart = 1023; apart <= 1024; apart++) {
             CountedPendulum z = Plants.plant("gravity 0 0; damping 0 0; couple 1;");
             z.reset(apart, 0);
             z.run(1);
             int s = apart == 1024 ? 1 : 0;
-            moved("coupled", z, new int[] {0, 0, apart, -s, 0, s});
+            Plants.moved("coupled", z, 0, 0, apart, -s, 0, s);
         }
         // And a push of 1 by the cosine: 4096 upright, 4095 at 1.
         CountedPendulum q = Plants.plant("gravity 0 0; damping 0 0; couple 0; push 1 1 1; region 1 1 0 1; gains 64 0 0 0 0 0;");
@@ -108,7 +99,7 @@ public final class ChangesTest {
         q.setMode(2);
         Checks.due("push", q.push(), 1);
         q.run(1);
-        moved("pushed", q, new int[] {0, 1, 1, 0, 0, -1});
+        Plants.moved("pushed", q, 0, 1, 1, 0, 0, -1);
     }
 
     private static void anglesWrap() {
@@ -117,7 +108,7 @@ public final class ChangesTest {
         x.nudge(1, 16);
         x.nudge(2, -16);
         x.run(1);
-        moved("over the top", x, new int[] {0, 0, 0, 16, 4095, -16});
+        Plants.moved("over the top", x, 0, 0, 0, 16, 4095, -16);
     }
 
     private static void coupling() {
@@ -125,14 +116,14 @@ public final class ChangesTest {
         CountedPendulum x = Plants.plant("gravity 0 0; damping 0 0; couple 200;");
         x.reset(1024, 0);
         x.run(1);
-        moved("ahead", x, new int[] {0, 0, 1024 - 12, -200, 12, 200});
+        Plants.moved("ahead", x, 0, 0, 1024 - 12, -200, 12, 200);
         x.reset(0, 1024);
         x.run(1);
-        moved("behind", x, new int[] {0, 0, 12, 200, 1012, -200});
+        Plants.moved("behind", x, 0, 0, 12, 200, 1012, -200);
         x.reset(0, 3584);
         x.run(1);
         // 200 * 2891 / 4096 is 141.
-        moved("a part", x, new int[] {0, 0, 4096 - 8, -141, 3584 + 8, 141});
+        Plants.moved("a part", x, 0, 0, 4096 - 8, -141, 3584 + 8, 141);
     }
 
     private static void railEnds() {
@@ -302,7 +293,7 @@ public final class ChangesTest {
         Checks.due("stopped", x.run(10), 3);
         Checks.due("the lock stands still", x.state(4), 49);
         Checks.due("the tick does not", x.state(0), 13);
-        moved("all stands still", x, new int[] {x.state(2), x.state(3), 30 + 43, 701, 30, 0});
+        Plants.moved("all stands still", x, x.state(2), x.state(3), 30 + 43, 701, 30, 0);
         Checks.due("one stop", x.state(7), 1);
         Checks.due("a stop is no switch", x.state(6), 2);
     }
@@ -366,7 +357,7 @@ public final class ChangesTest {
         x.nudge(1, 7);
         x.nudge(2, 8);
         Checks.due("reset", x.reset(0, 4095), 1);
-        moved("reset", x, new int[] {0, 0, 0, 0, 4095, 0});
+        Plants.moved("reset", x, 0, 0, 0, 0, 4095, 0);
         int[] want = {5, 0, 0, 0, 0, 8, 2, 0, 2};
         for (int what = 0; what <= 8; what++) {
             Checks.due("state " + what, x.state(what), want[what]);

@@ -4,6 +4,15 @@ public final class ModelTest {
     // A text is at most 25 calls of append, one of parse and one of errorPosition.
     private static final int MOST_CALLS_AT_ONCE = 27;
 
+    private static final String[] WORDS =
+            {"rail", "gravity", "damping", "push", "couple", "gains", "region", "limit", "chatter"};
+    private static final int[] ITEMS = {1, 2, 2, 3, 1, 6, 4, 2, 3};
+    private static final int[] LEAST = {1, 0, 0, 0, 0, 0, 0, 1, 0, 0, 0, 0, 0, 0, 0, 1, 1, 0, 1, 1, 1, 1, 1, 0};
+    private static final int[] MOST = {9999, 200, 200, 400, 400, 9, 9, 500, 200, 99, 99, 99, 99, 99, 99,
+        500, 500, 3, 200, 2000, 9999, 20, 200, 999};
+    private static final int[] LIVELY = {3000, 20, 30, 8, 9, 1, 2, 20, 10, 8, 16, 6, 9, 1, 2,
+        100, 90, 2, 6, 90, 1200, 2, 20, 5};
+
     private static long seed = 20261119;
     private static CountedPendulum x;
     private static Model model;
@@ -18,17 +27,11 @@ public final class ModelTest {
 
     public static void main(String[] args) {
         for (int object = 0; object < OBJECTS; object++) {
-            x = new CountedPendulum();
-            model = new Model();
-            if (object % 13 != 0) {
-                handText(plantText(false));
-            }
-            while (x.callsLeft() >= MOST_CALLS_AT_ONCE) {
-                someCall(object);
-                noteWhatWasMet();
-            }
-            while (x.callsLeft() > 0) {
-                compare("undo", () -> x.undo(), model.undo());
+            useOne(object, object % 13 == 0 ? "" : plantText(false));
+        }
+        for (int which = 0; which < 24; which++) {
+            for (int value = 0; value < 6; value++) {
+                useOne(which, extremeText(which, value));
             }
         }
         Checks.due("balance was met", balanced > 100, true);
@@ -43,6 +46,20 @@ public final class ModelTest {
         System.out.println("met: balance " + balanced + ", lock " + locked + ", rail ends " + railEnds
                 + ", overspeed " + overspeeds + ", bad texts " + badTexts + ", late ticks " + lateTicks);
         Checks.finish();
+    }
+
+    /** All the calls that an object may have, most of them made by the run's own dice. */
+    private static void useOne(int object, String text) {
+        x = new CountedPendulum();
+        model = new Model();
+        handText(text);
+        while (x.callsLeft() >= MOST_CALLS_AT_ONCE) {
+            someCall(object);
+            noteWhatWasMet();
+        }
+        while (x.callsLeft() > 0) {
+            compare("undo", () -> x.undo(), model.undo());
+        }
     }
 
     private static int next(int bound) {
@@ -117,6 +134,24 @@ public final class ModelTest {
             spoil(text);
         }
         return text.length() > 480 ? "" : text.toString();
+    }
+
+    /** A lively plant, but with one of its 24 numbers at an end of its range, next to it, or one beyond it. */
+    private static String extremeText(int which, int value) {
+        StringBuilder text = new StringBuilder();
+        int number = 0;
+        for (int k = 0; k < WORDS.length; k++) {
+            text.append(WORDS[k]);
+            for (int item = 0; item < ITEMS[k]; item++) {
+                int least = LEAST[number];
+                int most = MOST[number];
+                int[] values = {least, least + 1, most - 1, most, Math.max(0, least - 1), most + 1};
+                text.append(' ').append(number == which ? values[value] : LIVELY[number]);
+                number++;
+            }
+            text.append(';');
+        }
+        return text.toString();
     }
 
     private static int gain() {

@@ -13,6 +13,32 @@ final class Plants {
         return x;
     }
 
+    /** Such a plant, reset to two angles and then nudged to two speeds. */
+    static CountedPendulum at(String text, int a1, int a2, int w1, int w2) {
+        CountedPendulum x = plant(text);
+        x.reset(a1, a2);
+        faster(x, 1, w1);
+        faster(x, 2, w2);
+        return x;
+    }
+
+    /** Nudges a link by any amount, in as few calls as there must be. */
+    static void faster(CountedPendulum x, int link, int amount) {
+        for (int left = amount; left != 0; left -= Math.max(-500, Math.min(500, left))) {
+            x.nudge(link, Math.max(-500, Math.min(500, left)));
+        }
+    }
+
+    /** Whether the cart and the links are where they should be: x, v, a1, w1, a2, w2. */
+    static void moved(String what, CountedPendulum x, int... want) {
+        Checks.due(what + ": x", x.state(2), want[0]);
+        Checks.due(what + ": v", x.state(3), want[1]);
+        Checks.due(what + ": a1", x.link(1, 0), want[2]);
+        Checks.due(what + ": w1", x.link(1, 1), want[3]);
+        Checks.due(what + ": a2", x.link(2, 0), want[4]);
+        Checks.due(what + ": w2", x.link(2, 1), want[5]);
+    }
+
     static int parse(CountedPendulum x, String text) {
         append(x, text);
         return x.parse(text.length());
