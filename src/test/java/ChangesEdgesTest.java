@@ -29,6 +29,7 @@ public final class ChangesEdgesTest {
         restoredMoreThanOnce();
         historyAfterARestore();
         snapshotOfAStop();
+        switchesOfASnapshot();
         parseThatSucceeds();
         parseThatFails();
         refusedCallsChangeNothing();
@@ -508,6 +509,68 @@ public final class ChangesEdgesTest {
         Checks.sameText("the initial situation", Plants.shown(x), Plants.shown(Plants.plant("region 9 9 0 1;")));
         Checks.due("no earlier one", x.saveSnapshot(0), false);
         Checks.due("no earlier one", x.saveSnapshot(1), false);
+        CountedPendulum z = flickering("20 200 50");
+        z.run(21);
+        Checks.due("lock", z.state(4), 50);
+        Checks.due("parse", Plants.parse(z, ""), 0);
+        Checks.due("lock", z.state(4), 0);
+        CountedPendulum y = flickering("20 21 0");
+        y.run(250);
+        Checks.due("a switch in each tick", y.switchesIn(200), 200);
+        Checks.due("parse", Plants.parse(y, "region 9 9 0 1;"), 0);
+        Checks.sameText("the initial situation", Plants.shown(y), Plants.shown(Plants.plant("region 9 9 0 1;")));
+        for (int tick = 1; tick <= 200; tick++) {
+            y.run(1);
+            Checks.due("no switches", y.switchesIn(200), 0);
+        }
+    }
+
+    /** A switch in each tick of swing-up and balance, but for those of a lock. */
+    private static CountedPendulum flickering(String numbers) {
+        CountedPendulum x = Plants.at("gravity 0 0; damping 0 0; couple 0; gains 0 0 0 0 0 0; push 0 0 1; rail 9999;"
+                + "region 100 100 0 1; limit 20 9999; chatter " + numbers + ";", 30, 30, 0, 0);
+        x.setMode(1);
+        return x;
+    }
+
+    /** "a snapshot holds everything that changes can change": a single switch, as long ago as it can count. */
+    private static void switchesOfASnapshot() {
+        for (int since : new int[] {1, 2, 63, 64, 65, 127, 128, 129, 191, 192, 193, 199, 200}) {
+            CountedPendulum x = flickering("20 200 9");
+            x.run(1);
+            x.setMode(0);
+            if (since > 1) {
+                x.run(since - 1);
+            }
+            x.saveSnapshot(0);
+            x.setMode(1);
+            x.run(9);
+            x.setMode(0);
+            x.run(291);
+            Checks.due("long ago", x.switchesIn(200), 0);
+            Checks.due("switches", x.state(6), 10);
+            for (int way = 0; way <= 1; way++) {
+                if (way == 0) {
+                    for (int k = 0; k < 4; k++) {
+                        x.undo();
+                    }
+                } else {
+                    x.restoreSnapshot(0);
+                }
+                Checks.due("switches", x.state(6), 1);
+                Checks.due("within " + since, x.switchesIn(since), 1);
+                Checks.due("within 200", x.switchesIn(200), 1);
+                if (since > 1) {
+                    Checks.due("too long ago for " + (since - 1), x.switchesIn(since - 1), 0);
+                }
+                if (since < 200) {
+                    x.run(200 - since);
+                    Checks.due("the first of 200", x.switchesIn(200), 1);
+                }
+                x.run(1);
+                Checks.due("too long ago for 200", x.switchesIn(200), 0);
+            }
+        }
     }
 
     /** "On a parse error nothing changes except that the buffer is emptied" */

@@ -20,6 +20,7 @@ public final class StateEdgesTest {
         swingPushAroundTheTarget();
         balancingPushAtTheForce();
         balancingPushIsCut();
+        balancingPushOfTheCart();
         pushOfThePresentMode();
         noPush();
         stopReasonOfTheLatest();
@@ -235,6 +236,10 @@ public final class StateEdgesTest {
         Checks.due("the target itself", Plants.at(light, 0, 0, 1, 0).energy(1), 10430);
         Checks.due("the target itself", pushInMode(1, light, 0, 0, 1, 0), 60);
         Checks.due("the target itself, backwards", pushInMode(1, light, 0, 0, -1, 0), -60);
+        // Enough digits: 200 * 4096 * 10430 is more than an int holds.
+        Checks.due("the greatest target", pushInMode(1, "gravity 200 0;", 0, 0, 1, 0), 60);
+        Checks.due("less than the greatest target", pushInMode(1, "gravity 200 0;", 100, 0, 1, 0), -60);
+        Checks.due("far less than it", pushInMode(1, "gravity 200 0;", 2048, 0, 1, 0), 60);
     }
 
     /** "but at most force and at least -force" */
@@ -264,6 +269,34 @@ public final class StateEdgesTest {
             // The sum is cut, not its parts.
             Checks.due("push of " + sum, pushInMode(2, "gains 1 0 1 0 0 0;", (sum - 9) & 4095, 9, 0, 0), sum / 64);
         }
+    }
+
+    /** The same by k5 * x + k6 * v. */
+    private static void balancingPushOfTheCart() {
+        for (int sign = -1; sign <= 1; sign += 2) {
+            for (int velocity : new int[] {63, 64, 65, 127, 128}) {
+                CountedPendulum x = pushedOnce("gains 0 0 0 0 0 1;", sign, velocity);
+                Checks.due("v", x.state(3), sign * velocity);
+                Checks.due("push by v", x.push(), sign * velocity / 64);
+            }
+            for (int place : new int[] {31, 32, 33, 62}) {
+                CountedPendulum x = pushedOnce("gains 0 0 0 0 2 0;", sign, 8 * place);
+                Checks.due("x", x.state(2), sign * place);
+                Checks.due("push by x", x.push(), sign * 2 * place / 64);
+            }
+            CountedPendulum y = pushedOnce("gains 0 0 0 0 64 1;", sign, 80);
+            Checks.due("push by both", y.push(), sign * (640 + 80) / 64);
+        }
+    }
+
+    /** A cart that had one push from x and v of 0, with both links upright; in balance then. */
+    private static CountedPendulum pushedOnce(String gains, int sign, int force) {
+        CountedPendulum x = Plants.at("gravity 0 0; damping 0 0; couple 0; region 1 1 0 1; rail 9999; push 0 0 " + force + ";"
+                + gains, 0, 0, sign, 0);
+        x.setMode(1);
+        x.run(1);
+        x.setMode(2);
+        return x;
     }
 
     /** Promise 11: "the push that the next tick would have if it made its step in the present mode and state". */

@@ -4,6 +4,8 @@ public final class TextEdgesTest {
             + "gains 4 8 4 8 0 0;region 64 32 2 60;limit 512 1500;chatter 4 50 100;";
     private static final String[] STATEMENTS = {"rail 7;", "gravity 7 7;", "damping 7 7;", "push 7 7 7;", "couple 7;",
         "gains 7 7 7 7 7 7;", "region 7 7 2 7;", "limit 7 7;", "chatter 7 7 7;"};
+    private static final String[] LIVELY = {"rail 3000;", "gravity 20 30;", "damping 8 9;", "push 1 2 20;", "couple 10;",
+        "gains 8 16 6 9 1 2;", "region 100 90 2 6;", "limit 90 1200;", "chatter 2 20 5;"};
 
     public static void main(String[] args) {
         atMost500Bytes();
@@ -207,20 +209,32 @@ public final class TextEdgesTest {
     private static void whatAppliesWithoutAStatement() {
         String[] usual = ALL_USUAL.split(";");
         for (int without = 0; without < usual.length; without++) {
-            StringBuilder some = new StringBuilder();
-            for (int k = 0; k < STATEMENTS.length; k++) {
-                some.append(k == without ? "" : k == 0 ? "rail 700;" : STATEMENTS[k]);
+            StringBuilder others = new StringBuilder();
+            for (int k = 0; k < LIVELY.length; k++) {
+                others.append(k == without ? "" : LIVELY[k]);
             }
-            CountedPendulum x = Plants.plant(some.toString());
-            CountedPendulum y = Plants.plant(some + usual[without] + ";");
-            for (CountedPendulum z : new CountedPendulum[] {x, y}) {
-                z.reset(4093, 5);
-                z.nudge(1, -20);
-                z.setMode(1);
-                z.run(9);
+            for (int start = 0; start < 4; start++) {
+                String silent = lifeOf(others.toString(), start);
+                String written = lifeOf(others + usual[without] + ";", start);
+                Checks.sameText("without " + usual[without], silent, written);
             }
-            Checks.sameText("without " + usual[without], Plants.shown(x), Plants.shown(y));
         }
+    }
+
+    /** What a plant shows of itself when it has swung for a while, from one start or another. */
+    private static String lifeOf(String text, int start) {
+        int[][] starts = {{60, 4080, -40}, {30, 30, 0}, {2000, 2100, 300}, {4000, 50, 10}};
+        CountedPendulum x = Plants.at(text, starts[start][0], starts[start][1], starts[start][2], 0);
+        x.setMode(1 + start % 2);
+        StringBuilder life = new StringBuilder();
+        for (int ticks : new int[] {1, 3, 16, 40, 120}) {
+            x.run(ticks);
+            for (int what = 0; what <= 8; what++) {
+                life.append(x.state(what)).append(' ');
+            }
+            life.append(x.link(1, 0)).append(' ').append(x.link(2, 1)).append(' ').append(x.switchesIn(50)).append('\n');
+        }
+        return life.append(Plants.shown(x)).toString();
     }
 
     /** "a token that the grammar does not allow at this place": each sort of token at each place. */
@@ -458,16 +472,26 @@ public final class TextEdgesTest {
 
     /** "Parses the first length bytes": the rest is neither read nor kept. */
     private static void onlyTheFirstBytes() {
-        String text = "rail 5;push 1 1 7;##";
-        int[] codes = {0, 1, 1, 1, 1, 1, 1, 0, 1, 1, 1, 1, 1, 1, 1, 1, 1, 1, 0, 1, 1};
-        int[] positions = {-1, 0, 0, 0, 4, 5, 6, -1, 7, 7, 7, 11, 12, 13, 14, 15, 16, 17, -1, 18, 18};
+        String text = "rail 5;push 1 1 77;#";
+        int[] codes = {0, 1, 1, 1, 1, 1, 1, 0, 1, 1, 1, 1, 1, 1, 1, 1, 1, 1, 1, 0, 1};
+        int[] positions = {-1, 0, 0, 0, 4, 5, 6, -1, 7, 7, 7, 11, 12, 13, 14, 15, 16, 17, 18, -1, 19};
         for (int length = 0; length <= 20; length++) {
             CountedPendulum x = new CountedPendulum();
             Plants.append(x, text);
             Checks.due("parse(" + length + ")", x.parse(length), codes[length]);
             Checks.due("errorPosition", x.errorPosition(), positions[length]);
-            Checks.due("force", x.state(5), length == 18 ? 7 : 60);
+            Checks.due("force", x.state(5), length == 19 ? 77 : 60);
             Checks.throwsArgument("nothing is kept", () -> x.parse(1));
+        }
+        // A word, a number or a statement that the bytes behind the length would make wrong.
+        String[] cut = {"rail|x 5;", "rail 5;|rail 6;", "couple 0001|1;", "couple 200|0;", "rail 5;|#", "chatter 7 7 7|7;"};
+        int[] errors = {1, 0, 1, 1, 0, 1};
+        for (int k = 0; k < cut.length; k++) {
+            int length = cut[k].indexOf('|');
+            CountedPendulum x = new CountedPendulum();
+            Plants.append(x, cut[k].replace("|", ""));
+            Checks.due("parse of '" + cut[k] + "'", x.parse(length), errors[k]);
+            Checks.due("errorPosition of '" + cut[k] + "'", x.errorPosition(), errors[k] == 0 ? -1 : length);
         }
     }
 
