@@ -485,6 +485,8 @@ public final class ChangesEdgesTest {
         x.reset(0, 0);
         Checks.due("restore", x.restoreSnapshot(0), 1);
         Checks.due("mode", x.state(1), 3);
+        Checks.due("switches", x.state(6), 0);
+        Checks.due("stops", x.state(7), 1);
         Checks.due("resets", x.state(8), 1);
         Checks.throwsState("stopped", () -> x.setMode(1));
         CountedPendulum y = Plants.at("region 9 9 0 1; limit 512 9;", 0, 0, 100, 0);

@@ -6,7 +6,6 @@ public final class PlantTextTest {
     public static void main(String[] args) {
         newObject();
         usualNumbers();
-        usualEdges();
         appending();
         bytesOfArguments();
         parsingLength();
@@ -58,57 +57,6 @@ public final class PlantTextTest {
             y.run(40);
             Checks.sameText("usual, swinging: " + k, Plants.shown(x), Plants.shown(y));
         }
-    }
-
-    /** What applies without a statement, seen from edges that a number more or less would shift. */
-    private static void usualEdges() {
-        CountedPendulum x = Plants.plant("gravity 0 0; damping 0 0; push 0 0 60; couple 0; region 9 9 0 1;");
-        x.setMode(1);
-        x.run(1000);
-        Checks.due("rail", x.state(2), 4000);
-        for (int speed = 1500; speed <= 1501; speed++) {
-            x.reset(0, 0);
-            x.nudge(1, 500);
-            x.nudge(1, 500);
-            x.nudge(1, 499);
-            x.nudge(1, speed - 1499);
-            Checks.due("speed of limit", x.run(1), speed == 1500 ? 0 : 3);
-        }
-        for (int angle = 512; angle <= 513; angle++) {
-            x.reset(angle, angle);
-            x.setMode(2);
-            Checks.due("angle of limit", x.run(1), angle == 512 ? 2 : 1);
-        }
-        String free = "gravity 0 0; damping 0 0; push 0 0 60; couple 0; gains 0 0 0 0 0 0; limit ";
-        CountedPendulum y = Plants.plant(free + "183 999;");
-        Checks.due("64 + 60 * 32 / 16 is above 183", y.reason(1, 1), 3);
-        Checks.due("in step 60", y.failedStep(1, 1), 60);
-        Checks.due("but not above 184, and there is no step 61", Plants.plant(free + "184 999;").reason(1, 1), 4);
-        // Captured at each odd tick and given up at each even one.
-        String flickering = free + "20 9999; region 100 100 0 1;";
-        CountedPendulum z = Plants.plant(flickering);
-        z.reset(30, 30);
-        z.setMode(1);
-        z.run(4);
-        Checks.due("4 switches", z.state(4), 0);
-        z.saveSnapshot(0);
-        z.run(1);
-        Checks.due("more than 4 switches", z.state(4), 100);
-        z.restoreSnapshot(0);
-        z.setMode(0);
-        z.run(45);
-        z.reset(30, 30);
-        z.setMode(1);
-        z.run(1);
-        Checks.due("5 switches in 50 ticks", z.state(4), 100);
-        z.restoreSnapshot(0);
-        z.setMode(0);
-        z.run(46);
-        z.reset(30, 30);
-        z.setMode(1);
-        z.run(1);
-        Checks.due("5 switches in 51 ticks", z.state(4), 0);
-        Checks.due("5 switches in 51 ticks", z.state(6), 5);
     }
 
     private static void appending() {
