@@ -173,7 +173,7 @@ public final class RailPendulum {
     public int cellOf(int link, int what) throws IndexOutOfBoundsException, IllegalArgumentException {
         requireLink(link);
         requireRange(what, 0, 1);
-        return what == 0 ? plant.cellOfAngle(now.motion.angleOf(link)) : plant.cellOfSpeed(now.motion.speedOf(link));
+        return plant.cellPart(now.motion, link, what);
     }
 
     public boolean isCapturable() {
@@ -359,8 +359,8 @@ public final class RailPendulum {
     }
 
     private boolean isVerifiedFor(Situation s, int link) {
-        int i = plant.cellOfAngle(s.motion.angleOf(link));
-        int j = plant.cellOfSpeed(s.motion.speedOf(link));
+        int i = plant.cellPart(s.motion, link, 0);
+        int j = plant.cellPart(s.motion, link, 1);
         return plant.hasCell(i, j) && s.region.reasonAt(i, j) == ALL_WELL;
     }
 
@@ -526,15 +526,9 @@ public final class RailPendulum {
             return !isBeyond(i, count) && !isBeyond(j, count);
         }
 
-        int cellOfAngle(int angle) {
-            return nearestCell(leanOf(angle), number(REGION_ANGLE));
-        }
-
-        int cellOfSpeed(int speed) {
-            return nearestCell(speed, number(REGION_SPEED));
-        }
-
-        private static int nearestCell(int amount, int size) {
+        int cellPart(Motion m, int link, int what) {
+            int amount = what == 0 ? leanOf(m.angleOf(link)) : m.speedOf(link);
+            int size = number(what == 0 ? REGION_ANGLE : REGION_SPEED);
             return size > 0 ? Math.floorDiv(2 * amount + size, 2 * size) : 0;
         }
     }
